@@ -1,0 +1,14 @@
+/** Runs every test of the project; the last line tells how many passed and failed. */
+final class AllTests {
+    private AllTests() {
+    }
+
+    public static void main(String[] args) {
+        PlanTest.all();
+        PermitTest.all();
+        System.out.println("project " + Checks.passed + " " + Checks.failures.size());
+        if (!Checks.failures.isEmpty()) {
+            System.exit(1);
+        }
+    }
+}
