@@ -6,6 +6,8 @@ final class AllTests {
     public static void main(String[] args) {
         PlanTest.all();
         PermitTest.all();
+        AccessTest.all();
+        MatrixTest.all();
         System.out.println("project " + Checks.passed + " " + Checks.failures.size());
         if (!Checks.failures.isEmpty()) {
             System.exit(1);
