@@ -8,6 +8,7 @@ final class AllTests {
         PermitTest.all();
         AccessTest.all();
         MatrixTest.all();
+        ProgramTest.all();
         System.out.println("project " + Checks.passed + " " + Checks.failures.size());
         if (!Checks.failures.isEmpty()) {
             System.exit(1);
