@@ -9,6 +9,7 @@ final class AllTests {
         AccessTest.all();
         MatrixTest.all();
         ProgramTest.all();
+        BusTest.all();
         System.out.println("project " + Checks.passed + " " + Checks.failures.size());
         if (!Checks.failures.isEmpty()) {
             System.exit(1);
