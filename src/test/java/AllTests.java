@@ -10,6 +10,7 @@ final class AllTests {
         MatrixTest.all();
         ProgramTest.all();
         BusTest.all();
+        LiftTest.all();
         System.out.println("project " + Checks.passed + " " + Checks.failures.size());
         if (!Checks.failures.isEmpty()) {
             System.exit(1);
