@@ -5,6 +5,7 @@ final class AllTests {
 
     public static void main(String[] args) {
         PlanTest.all();
+        PlanRunTest.all();
         PermitTest.all();
         AccessTest.all();
         MatrixTest.all();
