@@ -12,6 +12,8 @@ final class AllTests {
         ProgramTest.all();
         BusTest.all();
         LiftTest.all();
+        SmokeTest.all();
+        FaceTest.all(args.length > 0 ? args[0] : "src/main/java/TowerHouse.java");
         System.out.println("project " + Checks.passed + " " + Checks.failures.size());
         if (!Checks.failures.isEmpty()) {
             System.exit(1);
