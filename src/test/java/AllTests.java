@@ -13,6 +13,7 @@ final class AllTests {
         BusTest.all();
         LiftTest.all();
         SmokeTest.all();
+        RandomCallTest.all();
         FaceTest.all(args.length > 0 ? args[0] : "src/main/java/TowerHouse.java");
         System.out.println("project " + Checks.passed + " " + Checks.failures.size());
         if (!Checks.failures.isEmpty()) {
