@@ -7,8 +7,10 @@ final class AllTests {
         PlanTest.all();
         PlanRunTest.all();
         PermitTest.all();
+        PermitRunTest.all();
         AccessTest.all();
         MatrixTest.all();
+        MatrixRunTest.all();
         ProgramTest.all();
         BusTest.all();
         LiftTest.all();
