@@ -9,9 +9,11 @@ final class AllTests {
         PermitTest.all();
         PermitRunTest.all();
         AccessTest.all();
+        AccessRunTest.all();
         MatrixTest.all();
         MatrixRunTest.all();
         ProgramTest.all();
+        ProgramRunTest.all();
         BusTest.all();
         LiftTest.all();
         SmokeTest.all();
