@@ -247,7 +247,7 @@ final class AccessRunTest {
         int portal = r.nextInt(6);
         int other = (portal + 1 + r.nextInt(5)) % 6;
         boolean on = r.nextInt(3) == 0;
-        int minute = m.time / 60 + r.nextInt(4) - 1;
+        int minute = m.time / 60 + r.nextInt(3) - 1;
         switch (r.nextInt(24)) {
             case 0:
                 tellCard(r, x, m);
@@ -283,7 +283,7 @@ final class AccessRunTest {
                 break;
             case 7:
             case 8:
-                if (on) {
+                if (r.nextBoolean()) {
                     Checks.due(0, x.off(portal, true));
                     m.off[portal] = m.off[portal] == null ? m.all.copy() : m.off[portal];
                 } else {
