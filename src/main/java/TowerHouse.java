@@ -1320,7 +1320,7 @@ public final class TowerHouse {
         private static final int MOST_CHARACTERS = 800;
         private static final int MOST_DIGITS = 9;
         private static final int MOST_LETTERS = 8;
-        private static final String SIGNS = "+-*/()<=>:;!@";
+        private static final char[] SIGNS = {'+', '-', '*', '/', '(', ')', '<', '=', '>', ':', ';', '!', '@'};
 
         private final char[] text = new char[MOST_CHARACTERS];
         private int length;
@@ -1426,7 +1426,7 @@ public final class TowerHouse {
                 kinds[k] = c == '<' ? AT_MOST : AT_LEAST;
                 return place + 2;
             }
-            kinds[k] = SIGNS.indexOf(c) >= 0 ? c : WRONG;
+            kinds[k] = isSign(c) ? c : WRONG;
             return place + 1;
         }
 
@@ -1452,6 +1452,15 @@ public final class TowerHouse {
             values[k] = value;
             kinds[k] = place - start <= MOST_LETTERS ? NAME : WRONG;
             return place;
+        }
+
+        private static boolean isSign(char c) {
+            for (int k = 0; k < SIGNS.length; k++) {
+                if (SIGNS[k] == c) {
+                    return true;
+                }
+            }
+            return false;
         }
 
         private static boolean isDigit(char c) {
@@ -2169,6 +2178,8 @@ public final class TowerHouse {
         // What is kept of a portal; its least cells in A and in B stand behind one another.
         private static final int ROOM_A = 0;
         private static final int ROOM_B = 1;
+        private static final int LINE = 2;
+        private static final int DOOR = 3;
         private static final int CELL_A = 4;
         private static final int CELL_B = 6;
         private static final int IS_OPEN = 8;
@@ -2230,9 +2241,14 @@ public final class TowerHouse {
             int to = plan.toOf(line, door);
             for (int distance = from; distance < to; distance++) {
                 boolean isPart = distance == from || finding.isPointOn(line, distance);
-                if (isPart && finding.roomLeft(line, distance) != finding.roomRight(line, distance)) {
+                int left = finding.roomLeft(line, distance);
+                int right = finding.roomRight(line, distance);
+                if (isPart && left != right) {
                     if (isNoting && found < portals) {
-                        notePortal(found, line, door, distance);
+                        notePortal(found, line, distance);
+                        setFact(found, DOOR, door);
+                        setFact(found, ROOM_A, roomFor(left));
+                        setFact(found, ROOM_B, roomFor(right));
                     }
                     found++;
                 }
@@ -2240,15 +2256,12 @@ public final class TowerHouse {
             return found;
         }
 
-        private void notePortal(int portal, int line, int door, int distance) {
+        private void notePortal(int portal, int line, int distance) {
             int at = portal * PORTAL_FIELDS;
             boolean level = plan.isLevel(line);
             int x = finding.unitX(line, distance);
             int y = finding.unitY(line, distance);
-            portalTable[at + ROOM_A] = roomFor(finding.roomLeft(line, distance));
-            portalTable[at + ROOM_B] = roomFor(finding.roomRight(line, distance));
-            portalTable[at + 2] = line;
-            portalTable[at + 3] = door;
+            portalTable[at + LINE] = line;
             portalTable[at + CELL_A] = level ? x : x - 1;
             portalTable[at + CELL_A + 1] = y;
             portalTable[at + CELL_B] = x;
@@ -2578,6 +2591,18 @@ public final class TowerHouse {
         static final int LATCHES = 4;
         private static final int LONGEST_SENTENCE = 200;
         private static final int MOST_DIGITS = 6;
+        // Words are kept as numbers, a byte for each letter, so that reading makes no texts.
+        private static final long ZONE_WORD = 0x7a6f6e65L;
+        private static final long NEEDS_WORD = 0x6e65656473L;
+        private static final long OF_WORD = 0x6f66L;
+        private static final long ACT_WORD = 0x616374L;
+        private static final long KIND_WORD = 0x6b696e64L;
+        private static final long RANK_WORD = 0x72616e6bL;
+        private static final long DELAY_WORD = 0x64656c6179L;
+        private static final long WHEN_WORD = 0x7768656eL;
+        private static final long DOES_WORD = 0x646f6573L;
+        private static final long HOLD_WORD = 0x686f6c64L;
+        private static final long AND_WORD = 0x26L;
         // Kinds of words; a sign is its own kind.
         private static final int END = 'e';
         private static final int LETTERS = 'a';
@@ -2593,6 +2618,7 @@ public final class TowerHouse {
         private int kind;
         private int wordStart;
         private int wordEnd;
+        private long letters;
         private final int[][] zones = new int[ZONES][FIRST_POINT + MOST_ZONE_POINTS];
         private final int[][] acts = new int[ACTS][LATCHES + 1];
         private final int[][] rows = new int[MOST_ROWS][3];
@@ -2611,30 +2637,30 @@ public final class TowerHouse {
             written = length;
             switch (which) {
                 case 0:
-                    writePart("zone ", a);
-                    writePart("needs ", b);
-                    writePart("of ", c);
+                    writePart(ZONE_WORD, a);
+                    writePart(NEEDS_WORD, b);
+                    writePart(OF_WORD, c);
                     for (int k = 1; k < d && k < MOST_ZONE_POINTS; k++) {
-                        writePart("", c + k);
+                        writeNumber(c + k);
                     }
                     break;
                 case 1:
-                    writePart("act ", a);
-                    writePart("kind ", b);
-                    writePart("rank ", c);
-                    writePart("delay ", d);
+                    writePart(ACT_WORD, a);
+                    writePart(KIND_WORD, b);
+                    writePart(RANK_WORD, c);
+                    writePart(DELAY_WORD, d);
                     break;
                 case 2:
-                    writePart("when ", a);
-                    writePart("does ", b);
+                    writePart(WHEN_WORD, a);
+                    writePart(DOES_WORD, b);
                     break;
                 case 3:
-                    writePart("when ", a);
-                    writePart("& ", b);
-                    writePart("does ", c);
+                    writePart(WHEN_WORD, a);
+                    writePart(AND_WORD, b);
+                    writePart(DOES_WORD, c);
                     break;
                 default:
-                    writePart("hold ", a);
+                    writePart(HOLD_WORD, a);
                     break;
             }
             write(';');
@@ -2642,10 +2668,18 @@ public final class TowerHouse {
             return written;
         }
 
-        private void writePart(String before, int number) {
-            for (int k = 0; k < before.length(); k++) {
-                write(before.charAt(k));
+        private void writePart(long before, int number) {
+            for (int shift = 56; shift >= 0; shift -= 8) {
+                long c = before >> shift & 255;
+                if (c != 0) {
+                    write((char) c);
+                }
             }
+            write(' ');
+            writeNumber(number);
+        }
+
+        private void writeNumber(int number) {
             boolean isBegun = false;
             for (int place = 10000; place > 0; place /= 10) {
                 int digit = number / place % 10;
@@ -2696,16 +2730,14 @@ public final class TowerHouse {
             }
             word++;
             wordStart = place;
+            letters = 0;
             kind = place < length ? kindOf(text[place]) : END;
-            if (kind == END) {
-                wordEnd = place;
-                return;
-            }
-            place++;
-            while (place < length && (kind == LETTERS || kind == DIGITS) && kindOf(text[place]) == kind) {
+            boolean isLong = kind == LETTERS || kind == DIGITS;
+            while (isLong && place < length && kindOf(text[place]) == kind) {
+                letters = letters << 8 | text[place];
                 place++;
             }
-            wordEnd = place;
+            wordEnd = isLong || kind == END ? place : place + 1;
         }
 
         private static int kindOf(char c) {
@@ -2718,20 +2750,13 @@ public final class TowerHouse {
             return c == ';' || c == '&' ? c : OTHER;
         }
 
-        private boolean isWord(String other) {
-            if (kind != LETTERS || wordEnd - wordStart != other.length()) {
-                return false;
-            }
-            for (int k = 0; k < other.length(); k++) {
-                if (text[wordStart + k] != other.charAt(k)) {
-                    return false;
-                }
-            }
-            return true;
+        /** A word of more than eight letters is none of those that are known: all its eight bytes are letters. */
+        private boolean isWord(long known) {
+            return kind == LETTERS && letters == known;
         }
 
-        private boolean skipWord(String other) {
-            boolean isIt = isWord(other);
+        private boolean skipWord(long known) {
+            boolean isIt = isWord(known);
             if (isIt) {
                 nextWord();
             }
@@ -2759,16 +2784,16 @@ public final class TowerHouse {
         }
 
         private boolean readSentence() {
-            if (skipWord("zone")) {
+            if (skipWord(ZONE_WORD)) {
                 return readZone();
             }
-            if (skipWord("act")) {
+            if (skipWord(ACT_WORD)) {
                 return readAct();
             }
-            if (isWord("when")) {
+            if (isWord(WHEN_WORD)) {
                 return rowCount < MOST_ROWS && readRow();
             }
-            return skipWord("hold") && readHold();
+            return skipWord(HOLD_WORD) && readHold();
         }
 
         private boolean readZone() {
@@ -2777,7 +2802,7 @@ public final class TowerHouse {
                 return false;
             }
             nextWord();
-            if (!skipWord("needs")) {
+            if (!skipWord(NEEDS_WORD)) {
                 return false;
             }
             int needs = numberHere(1, MOST_ZONE_POINTS);
@@ -2786,7 +2811,7 @@ public final class TowerHouse {
                 return false;
             }
             nextWord();
-            if (!skipWord("of")) {
+            if (!skipWord(OF_WORD)) {
                 return false;
             }
             int count = readPoints(zones[zone]);
@@ -2831,15 +2856,15 @@ public final class TowerHouse {
                 return false;
             }
             nextWord();
-            boolean isFine = readActNumber(act, "kind", KIND, 5)
-                && readActNumber(act, "rank", RANK, 99)
-                && readActNumber(act, "delay", DELAY, 600)
+            boolean isFine = readActNumber(act, KIND_WORD, KIND, 5)
+                && readActNumber(act, RANK_WORD, RANK, 99)
+                && readActNumber(act, DELAY_WORD, DELAY, 600)
                 && skipSign(';');
             acts[act][IS_TOLD] = 1;
             return isFine;
         }
 
-        private boolean readActNumber(int act, String before, int what, int greatest) {
+        private boolean readActNumber(int act, long before, int what, int greatest) {
             if (!skipWord(before)) {
                 return false;
             }
@@ -2867,7 +2892,7 @@ public final class TowerHouse {
                 }
                 nextWord();
             }
-            if (!skipWord("does")) {
+            if (!skipWord(DOES_WORD)) {
                 return false;
             }
             int act = toldActHere();
@@ -3776,11 +3801,7 @@ public final class TowerHouse {
             if (k <= 8) {
                 return v >> k - 1 & 1;
             }
-            return k == 9 ? parityOf(v) : 1;
-        }
-
-        private static int parityOf(int v) {
-            return Integer.bitCount(v) & 1;
+            return k == 9 ? Integer.bitCount(v) & 1 : 1;
         }
 
         private void goOnSaying(int station, int line) {
@@ -3866,7 +3887,7 @@ public final class TowerHouse {
 
         private void takeCharacter() {
             int v = bits >> 1 & 255;
-            if ((bits >> 9 & 1) != parityOf(v) || (bits >> 10 & 1) == 0 || byteCount >= MOST_HEARD) {
+            if ((bits >> 9 & 1) != (Integer.bitCount(v) & 1) || (bits >> 10 & 1) == 0 || byteCount >= MOST_HEARD) {
                 isBad = true;
             }
             if (byteCount < MOST_HEARD) {
