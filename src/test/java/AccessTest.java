@@ -128,6 +128,9 @@ final class AccessTest {
         Checks.argument(() -> x.right(0, 0, 0, -1, 0));
         Checks.argument(() -> x.right(0, 0, 0, 1, 1000001));
         Checks.argument(() -> x.right(0, 0, 0, 1, -1));
+        TowerHouse edge = Houses.four();
+        Checks.due(0, edge.right(9, 9, 1439, 1439, 1000000));
+        Checks.due(1, edge.right(0, 0, 0, 0, 0));
         Checks.due(-1, x.end(15, 7));
         Checks.due(7, x.end(15, 0));
         Checks.due(0, x.end(15, 1000000));

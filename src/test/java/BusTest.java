@@ -9,6 +9,7 @@ final class BusTest {
         Checks.test("P22 address, listen, busy: what was, wrong calls", BusTest::settings);
         Checks.test("P23 send: queues, wrong calls", BusTest::queues);
         Checks.test("P23 send: the bytes of a telegram, said and answered", BusTest::bytes);
+        Checks.test("P23 send: high bytes of sender and aim", BusTest::highBytes);
         Checks.test("P23 send: idle, waiting, priorities", BusTest::idle);
         Checks.test("P23 send: the line is 0 if one sends 0", BusTest::contention);
         Checks.test("P23 send: said again, lost", BusTest::repeated);
@@ -96,6 +97,18 @@ final class BusTest {
         Checks.due(0, x.heard(2));
         Checks.due(1, x.heard(3));
         Checks.due(0, x.heard(4));
+    }
+
+    private static void highBytes() {
+        TowerHouse x = Houses.four();
+        x.address(2, 0xff00);
+        x.send(2, 3, 0xfe00, false, 1, 255);
+        x.pass(4);
+        long[] want = {188, 255, 0, 254, 0, 0, 255, 255 ^ 188 ^ 255 ^ 254 ^ 255};
+        for (int k = 0; k < want.length; k++) {
+            Checks.due(want[k], x.byteAt(k));
+        }
+        Checks.due(1, x.heard(1));
     }
 
     private static void idle() {

@@ -31,6 +31,8 @@ final class PermitTest {
         Checks.argument(() -> x.say(10));
         Checks.argument(() -> x.say(-1));
         Checks.argument(() -> x.say(0x8000000000000020L));
+        Checks.due(11, x.say(126));
+        Checks.due(10, x.trim(1));
         Checks.due(10, x.say(0));
         Checks.due(12, x.say(0x3d32L));
         // It says a:1 =1;b:2=2.
@@ -158,6 +160,10 @@ final class PermitTest {
         wrong(many.length() + 1, many + "+1");
         wrong(many.length() + 1, many + "+");
         wrong(many.length() + 3, many + "+  1");
+        // 120 words are reckoned up to the last one.
+        Checks.due(1, Houses.rules(x, "a:-1=" + many.substring(4, many.length() - 2) + "+3"));
+        Checks.due(1, x.check(0));
+        Checks.row(Checks.of(-1, 1, 60, 1), sides(x, 0));
         Checks.due(1, Houses.rules(x, "a:((((((((1))))))))=1"));
         wrong(10, "a:(((((((((1)))))))))=1");
         Checks.due(1, Houses.rules(x, "a:((((((((1))))))))=((((((((x))))))))+((((((((1))))))))"));
@@ -392,6 +398,14 @@ final class PermitTest {
         TowerHouse y = comb(x40());
         y.find();
         Checks.due(0, y.build(1000000));
+        // Its points are 40 detectors and 10 switches.
+        Checks.due(0, y.signal(49, 100));
+        Checks.due(100, y.signal(49, 0));
+        Checks.due(0, y.signal(39, 100));
+        Checks.argument(() -> y.signal(50, 0));
+        y.fire(9, 7);
+        y.pass(1);
+        Checks.due(10, y.signal(39, 0));
         TowerHouse z = x40();
         comb(z);
         z.line(20, 20, 24, 20);
