@@ -25,7 +25,7 @@ final class PermitTest {
         TowerHouse x = new TowerHouse();
         Checks.due(0, x.say(0));
         Checks.due(3, x.say(0x6100003a00003100L));
-        Checks.due(8, x.say(Houses.word(" =1;b:2")) - 2);
+        Checks.due(10, x.say(Houses.word(" =1;b:2")));
         Checks.argument(() -> x.say(31));
         Checks.argument(() -> x.say(127));
         Checks.argument(() -> x.say(10));
@@ -394,8 +394,8 @@ final class PermitTest {
         Checks.argument(() -> x.build(-1));
         Checks.due(1, x.pass(1));
         // 40 spaces may be built, 41 not.
-        Checks.due(40, comb(x40()).find());
-        TowerHouse y = comb(x40());
+        Checks.due(40, comb(new TowerHouse()).find());
+        TowerHouse y = comb(new TowerHouse());
         y.find();
         Checks.due(0, y.build(1000000));
         // Its points are 40 detectors and 10 switches.
@@ -406,7 +406,7 @@ final class PermitTest {
         y.fire(9, 7);
         y.pass(1);
         Checks.due(10, y.signal(39, 0));
-        TowerHouse z = x40();
+        TowerHouse z = new TowerHouse();
         comb(z);
         z.line(20, 20, 24, 20);
         z.line(20, 24, 24, 24);
@@ -414,10 +414,6 @@ final class PermitTest {
         z.line(24, 20, 24, 24);
         Checks.due(41, z.find());
         Checks.state(() -> z.build(0));
-    }
-
-    private static TowerHouse x40() {
-        return new TowerHouse();
     }
 
     /** 9 lines across and 6 upright: 8 by 5 spaces. */
