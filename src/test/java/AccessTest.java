@@ -12,6 +12,7 @@ final class AccessTest {
         Checks.test("P10 right, end, lost: numbers, what was, wrong calls", AccessTest::rightsEndsLost);
         Checks.test("P10 right: spans of the day, since, group, zone", AccessTest::spans);
         Checks.test("P11 two, airlock, stands: what was, wrong calls", AccessTest::portalStates);
+        Checks.test("P11 airlock, off: of many portals", AccessTest::manyPortals);
         Checks.test("P12 ask: refused by the first that is so", AccessTest::refusals);
         Checks.test("P12 ask: least cells, in and out", AccessTest::cells);
         Checks.test("P12 both: two cards", AccessTest::bothCards);
@@ -222,6 +223,60 @@ final class AccessTest {
         Checks.due(14, x.stands(1, true));
         Checks.argument(() -> x.stands(6, true));
         Checks.argument(() -> x.stands(-1, true));
+    }
+
+    private static void manyPortals() {
+        // 8 by 5 spaces; six doors along each of nine lines make 270 portals.
+        TowerHouse x = PermitTest.comb(new TowerHouse());
+        for (int k = 0; k < 9; k++) {
+            for (int door = 0; door < 6; door++) {
+                x.door(k, 0, 10, 1);
+            }
+        }
+        x.find();
+        Checks.due(270, x.build(0));
+        int[] some = {0, 1, 62, 63, 64, 65, 127, 128, 129, 192, 256, 269};
+        boolean[][] are = new boolean[some.length][some.length];
+        java.util.Random r = new java.util.Random(5);
+        for (int k = 0; k < 2000; k++) {
+            int a = r.nextInt(some.length);
+            int b = (a + 1 + r.nextInt(some.length - 1)) % some.length;
+            boolean on = r.nextBoolean();
+            Checks.due(are[a][b], x.airlock(some[a], some[b], on));
+            are[a][b] = on;
+            are[b][a] = on;
+        }
+        TowerHouse y = PermitTest.comb(new TowerHouse());
+        for (int door = 0; door < 6; door++) {
+            for (int k = 0; k < 9; k++) {
+                y.door(k, 0, 10, 1);
+            }
+        }
+        y.find();
+        y.build(0);
+        y.person(0, 1);
+        y.card(0, 9);
+        y.right(0, 0, 0, 1439, 0);
+        y.airlock(0, 269, true);
+        y.stands(269, true);
+        int room = y.portal(0, 0) == 40 ? y.portal(0, 1) : y.portal(0, 0);
+        Checks.due(6, y.ask(0, 0, room));
+        y.stands(269, false);
+        y.stands(205, true);
+        y.stands(204, true);
+        y.stands(13, true);
+        Checks.due(0, y.ask(0, 0, room));
+        y.off(269, true);
+        Checks.due(0, y.off(269, false));
+        // The rows of the last portal are its own.
+        y.off(268, true);
+        y.off(269, true);
+        for (int k = 0; k < 20; k++) {
+            Checks.due(0, y.ask(0, 268, 40));
+        }
+        Checks.due(0, y.ask(0, 269, 40));
+        Checks.due(1, y.off(269, false));
+        Checks.due(20, y.off(268, false));
     }
 
     private static void refusals() {

@@ -17,6 +17,7 @@ final class BusTest {
         Checks.test("P23 disturb: told once, at most 50, wrong calls", BusTest::disturbances);
         Checks.test("P24 heard: answers, busy ones, wrong telegrams, noise", BusTest::heard);
         Checks.test("P24 heard: who answers", BusTest::whoAnswers);
+        Checks.test("P24 heard: no answer behind another thing", BusTest::aloneWithTheTelegram);
         Checks.test("P24 heard: program points", BusTest::programPoints);
         Checks.test("P24 byteAt: answers and wrong calls", BusTest::byteAt);
         Checks.test("P22-24 random runs as in the model", BusTest::randomRuns);
@@ -320,6 +321,33 @@ final class BusTest {
         z.listen(4, 8, false);
         Houses.pass(z, 3);
         Checks.due(-1, z.byteAt(-1));
+    }
+
+    private static void aloneWithTheTelegram() {
+        // T is 102. A 0 behind the last bit begins another thing, which is complete in bit time 114: nobody answers then.
+        TowerHouse x = Houses.four();
+        x.send(0, 0, 1, false, 1, 0);
+        x.disturb(103);
+        x.disturb(114);
+        x.pass(5);
+        Checks.due(1, x.heard(1));
+        Checks.due(2, x.heard(2));
+        Checks.due(0, x.heard(3) + x.heard(4));
+        Checks.due(-1, x.byteAt(-1));
+        Checks.due(0, x.station(0, 3));
+        Checks.due(0, x.station(0, 2));
+        // If it is not yet complete in T + 14 station 1 does answer, but its character is the second one of that thing. Its
+        // last 0 is in bit time 125, so the telegram is said again from 176 to 277.
+        TowerHouse y = Houses.four();
+        y.send(0, 0, 1, false, 1, 0);
+        y.disturb(103);
+        y.pass(9);
+        Checks.due(1, y.heard(0));
+        Checks.due(1, y.heard(2));
+        Checks.due(-1, y.byteAt(-1));
+        y.pass(1);
+        Checks.due(2, y.heard(0));
+        Checks.due(144, y.byteAt(0));
     }
 
     private static void programPoints() {

@@ -66,6 +66,29 @@ final class PermitTest {
         Checks.argument(() -> x.trim(Integer.MIN_VALUE));
         Checks.due(1, x.rules());
         Checks.argument(() -> x.trim(1));
+        // What was taken away is in no word, also if the text is full.
+        Houses.rules(x, "a:1=xyz9");
+        x.trim(8);
+        Houses.say(x, "a:1=xyz9");
+        x.trim(2);
+        Checks.due(1, x.rules());
+        x.check(0);
+        Checks.due(Houses.word("xy"), x.rule(0, 6));
+        for (int k = 0; k < 99; k++) {
+            x.say(0x2020202020202020L);
+        }
+        Houses.say(x, "a:12=abc");
+        Checks.due(1, x.rules());
+        for (int k = 0; k < 99; k++) {
+            x.say(0x2020202020202020L);
+        }
+        Houses.say(x, "a:x=1234");
+        Checks.due(1, x.rules());
+        for (int k = 0; k < 99; k++) {
+            x.say(0x2020202020202020L);
+        }
+        Houses.say(x, "a:xyz=1<");
+        Checks.due(-1 - 799, x.rules());
         TowerHouse y = Houses.four();
         Checks.due(1, y.say(65));
         Checks.due(0, y.trim(1));
@@ -361,6 +384,9 @@ final class PermitTest {
         open(2, "(-" + p62 + "-" + p62 + ")/m");
         reckoned(-1, 1L << 62, "2/(-" + p62 + "-" + p62 + ")");
         reckoned(1L << 62, 1, "(-" + p62 + "-" + p62 + ")/(-2)");
+        open(2, "(-" + p62 + "-" + p62 + ")*(-1)");
+        open(2, "(0-1)*(-" + p62 + "-" + p62 + ")");
+        reckoned(Long.MIN_VALUE, 1, "(-" + p62 + "-" + p62 + ")*1");
         // What is compared is multiplied, too, and that may be too great.
         TowerHouse x = new TowerHouse();
         Houses.rules(x, "a:" + p62 + "=" + p62 + "/3;b:" + p62 + "/3=" + p62 + "/3;c:" + p62 + "=" + p62);
@@ -417,7 +443,7 @@ final class PermitTest {
     }
 
     /** 9 lines across and 6 upright: 8 by 5 spaces. */
-    private static TowerHouse comb(TowerHouse x) {
+    static TowerHouse comb(TowerHouse x) {
         for (int k = 0; k < 9; k++) {
             x.line(0, k, 10, k);
         }
