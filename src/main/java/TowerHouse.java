@@ -1098,7 +1098,7 @@ public final class TowerHouse {
             ring[1] = first;
             ring[2] = sideCount - first;
             rings++;
-            if (space != NONE) {
+            if (space >= 0) {
                 edges[space] += length;
             }
         }
