@@ -216,6 +216,9 @@ final class PermitTest {
         Checks.argument(() -> x.fact(Houses.word("A"), 0));
         Checks.argument(() -> x.fact(Houses.word("a1"), 0));
         Checks.argument(() -> x.fact(0x610061, 0));
+        Checks.argument(() -> x.fact(Houses.word("Aaaaaaaa"), 0));
+        Checks.argument(() -> x.fact(0x8061616161616161L, 0));
+        Checks.argument(() -> x.fact(0x6100000000000000L, 0));
         Checks.argument(() -> x.fact(0x6100, 0));
         Checks.argument(() -> x.fact(-1, 0));
         Checks.argument(() -> x.fact(0x7b, 0));

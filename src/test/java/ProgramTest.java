@@ -172,6 +172,10 @@ final class ProgramTest {
         x.bind(0, -1);
         x.pass(1);
         Checks.due(0, x.signal(7, 0));
+        // A block that is not bound is none of the points' business.
+        for (int k = 0; k < 14; k++) {
+            Checks.due(0, x.signal(k, 0));
+        }
     }
 
     private static void points() {
