@@ -238,7 +238,7 @@ final class AccessTest {
         int[] some = {0, 1, 62, 63, 64, 65, 127, 128, 129, 192, 256, 269};
         boolean[][] are = new boolean[some.length][some.length];
         java.util.Random r = new java.util.Random(5);
-        for (int k = 0; k < 2000; k++) {
+        for (int k = 0; k < 400; k++) {
             int a = r.nextInt(some.length);
             int b = (a + 1 + r.nextInt(some.length - 1)) % some.length;
             boolean on = r.nextBoolean();

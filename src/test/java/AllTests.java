@@ -5,18 +5,31 @@ final class AllTests {
 
     public static void main(String[] args) {
         PlanTest.all();
+        PlanEdgeTest.all();
+        SpaceEdgeTest.all();
         PlanRunTest.all();
         PermitTest.all();
+        PermitEdgeTest.all();
+        ReckonEdgeTest.all();
         PermitRunTest.all();
         AccessTest.all();
+        AccessEdgeTest.all();
+        OffEdgeTest.all();
         AccessRunTest.all();
         MatrixTest.all();
+        MatrixTextEdgeTest.all();
+        AlarmEdgeTest.all();
         MatrixRunTest.all();
         ProgramTest.all();
+        ProgramEdgeTest.all();
         ProgramRunTest.all();
         BusTest.all();
+        BusEdgeTest.all();
+        HeardEdgeTest.all();
         LiftTest.all();
+        LiftEdgeTest.all();
         SmokeTest.all();
+        SmokeEdgeTest.all();
         RandomCallTest.all();
         FaceTest.all(args.length > 0 ? args[0] : "src/main/java/TowerHouse.java");
         System.out.println("project " + Checks.passed + " " + Checks.failures.size());
