@@ -635,6 +635,9 @@ final class AccessTest {
         Checks.argument(() -> x.both(0, 1, 0, 0));
         Checks.argument(() -> x.where(0, 0));
         Checks.state(() -> x.inside(0));
+        Checks.argument(() -> x.inside(10));
+        Checks.argument(() -> x.inside(-1));
+        Checks.argument(() -> x.right(0, 0, 0, 1440, 0));
         Checks.state(() -> x.against(0, 0));
         Checks.argument(() -> x.against(0, 1));
     }

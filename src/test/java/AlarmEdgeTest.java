@@ -618,6 +618,22 @@ final class AlarmEdgeTest {
         for (int p = 4; p < 10; p++) {
             Checks.due(1, x.pointAt(p));
         }
+        // Acts of other kinds set no point.
+        TowerHouse y = Houses.four();
+        y.sentence(0, 0, 1, 4, 2);
+        for (int kind = 0; kind < 6; kind++) {
+            if (kind != 3) {
+                y.sentence(1, kind, kind, 0, 0);
+                y.sentence(2, 0, kind, 0, 0);
+            }
+        }
+        y.matrix();
+        y.signal(4, 50);
+        y.pass(1);
+        Checks.due(5, y.told(2));
+        for (int p = 4; p < 10; p++) {
+            Checks.due(0, y.pointAt(p));
+        }
         // 14 modulo 6 is 2.
         x.cutText(x.cutText(0));
         x.sentence(0, 0, 1, 6, 2);

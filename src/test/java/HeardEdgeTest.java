@@ -248,6 +248,20 @@ final class HeardEdgeTest {
         near.skip(1);
         near.saySo(255, 0, 1);
         heard(near, 1, 1, 1, 1, 0);
+        // What begins earlier is none, also if its second character is where the answer would be.
+        Row early = row(checked(176, 0, 99, 0, 98, 0, 7));
+        early.at -= 2;
+        early.saySo(255, 0, 1);
+        early.skip(2);
+        early.saySo(204, 0, 1);
+        heard(early, 1, 1, 1, 0, 0);
+        TowerHouse x = Houses.four();
+        Row meant = row(checked(176, 0, 99, 0, 1, 0, 7));
+        meant.at -= 2;
+        meant.saySo(255, 0, 1);
+        meant.on(x);
+        Checks.row(Checks.of(1, 1, 1, 0, 0), counts(x));
+        Checks.due(-1, x.byteAt(-1));
         // One that is not right has an answer, too; a second one has none.
         Row wrong = row(176, 0, 99, 0, 98, 0, 7, 0);
         wrong.skip(11);

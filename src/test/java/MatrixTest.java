@@ -206,14 +206,16 @@ final class MatrixTest {
 
     private static void limits() {
         wrong(17, "zone 0 needs 1 of 0 1 2 3 4 5 6 7 8 9 10 11 12;");
-        StringBuilder rows = new StringBuilder(BASE);
+        TowerHouse x = Houses.four();
+        Houses.write(x, BASE);
         for (int k = 0; k < 50; k++) {
-            rows.append("when 0 does 0;");
+            x.sentence(2, 0, 0, 0, 0);
         }
-        good(50, rows.toString());
-        good(50, rows + "hold 0;");
-        wrong(23 + 250, rows + "when 0 does 0;");
-        wrong(23 + 250, rows + "when");
+        Checks.due(50, x.matrix());
+        Checks.due(71 + 50 * 16 + 9, x.sentence(4, 0, 0, 0, 0));
+        Checks.due(50, x.matrix());
+        x.sentence(2, 0, 0, 0, 0);
+        Checks.due(-1 - 23 - 250 - 3, x.matrix());
     }
 
     private static long[] act(TowerHouse x, int act) {

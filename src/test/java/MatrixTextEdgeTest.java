@@ -483,23 +483,33 @@ final class MatrixTextEdgeTest {
         Checks.due(2, x.act(1, 1));
         // Fewer rows, other ranks: nothing of the earlier text is left.
         TowerHouse y = Houses.four();
-        Houses.write(y, BASE + "act 1 kind 5 rank 9 delay 600;act 2 kind 5 rank 5 delay 600;");
-        Houses.write(y, "when 0 does 0;when 0 does 1;when 0 does 2;when 1 does 1;");
-        Checks.due(4, y.matrix());
+        Houses.write(y, BASE + "act 1 kind 5 rank 9 delay 600;act 2 kind 5 rank 5 delay 600;act 3 kind 5 rank 4 delay 0;");
+        for (int act = 0; act < 4; act++) {
+            y.sentence(2, 0, act, 0, 0);
+        }
+        y.sentence(2, 1, 3, 0, 0);
+        Checks.due(5, y.matrix());
         y.cutText(y.cutText(0));
         Houses.write(y, BASE + "act 1 kind 5 rank 3 delay 0;act 2 kind 5 rank 5 delay 0;act 3 kind 5 rank 0 delay 600;zone 2 needs 1 of 6 7;");
-        Houses.write(y, "when 0 does 1;when 0 does 2;when 2 does 3;");
-        Checks.due(3, y.matrix());
+        for (int act = 0; act < 3; act++) {
+            y.sentence(2, 0, act, 0, 0);
+        }
+        y.sentence(2, 2, 3, 0, 0);
+        Checks.due(4, y.matrix());
         y.signal(4, 50);
         y.signal(5, 50);
         y.signal(6, 50);
         y.pass(1);
-        Checks.due(0, y.act(0, 0));
+        Checks.due(2, y.act(0, 0));
         Checks.due(2, y.act(1, 0));
         Checks.due(2, y.act(2, 0));
+        // Its own zone is not sure, and the row of zone 1 is not there any more.
         Checks.due(1, y.act(3, 0));
-        Checks.due(1, y.event(0, 1));
-        Checks.due(2, y.event(1, 1));
+        int[] order = {2, 1, 0};
+        for (int k = 0; k < 3; k++) {
+            Checks.due(order[k], y.event(2 - k, 1));
+        }
+        Checks.argument(() -> y.event(3, 0));
         y.signal(4, 0);
         y.pass(1);
         Checks.due(0, y.act(1, 0));
