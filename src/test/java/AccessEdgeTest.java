@@ -33,22 +33,6 @@ final class AccessEdgeTest {
         Checks.test("P12 edge: both, 'the first one first', 8 'behind all that', one card", AccessEdgeTest::bothReasons);
     }
 
-    private static long[] portal(TowerHouse x, int portal) {
-        long[] all = new long[6];
-        for (int what = 0; what < 6; what++) {
-            all[what] = x.portal(portal, what);
-        }
-        return all;
-    }
-
-    private static long[] where(TowerHouse x, int person) {
-        long[] all = new long[6];
-        for (int what = 0; what < 6; what++) {
-            all[what] = x.where(person, what);
-        }
-        return all;
-    }
-
     private static void portalOrder() {
         // The later door of an earlier line comes first, and of one line the earlier door, wherever it lies.
         TowerHouse x = Houses.fourPlanned();
@@ -56,11 +40,11 @@ final class AccessEdgeTest {
         x.door(0, 3, 5, 1);
         x.find();
         Checks.due(6 + 3, x.build(0));
-        Checks.row(Checks.of(0, 4, 0, 0, 1, 0), portal(x, 0));
-        Checks.row(Checks.of(2, 4, 0, 1, 6, 0), portal(x, 1));
-        Checks.row(Checks.of(0, 4, 0, 2, 3, 0), portal(x, 2));
-        Checks.row(Checks.of(2, 4, 0, 2, 4, 0), portal(x, 3));
-        Checks.row(Checks.of(1, 0, 1, 0, 1, 4), portal(x, 4));
+        Checks.row(Checks.of(0, 4, 0, 0, 1, 0), Facts.portal(x, 0));
+        Checks.row(Checks.of(2, 4, 0, 1, 6, 0), Facts.portal(x, 1));
+        Checks.row(Checks.of(0, 4, 0, 2, 3, 0), Facts.portal(x, 2));
+        Checks.row(Checks.of(2, 4, 0, 2, 4, 0), Facts.portal(x, 3));
+        Checks.row(Checks.of(1, 0, 1, 0, 1, 4), Facts.portal(x, 4));
         // A door over three pieces of an upright line, told from its high end: from the low end on.
         TowerHouse y = new TowerHouse();
         PlanTest.square(y, 2, 2, 6);
@@ -70,9 +54,9 @@ final class AccessEdgeTest {
         y.door(4, 0, 6, 1);
         Checks.due(4, y.find());
         Checks.due(3, y.build(0));
-        Checks.row(Checks.of(0, 2, 4, 0, 4, 2), portal(y, 0));
-        Checks.row(Checks.of(1, 2, 4, 0, 4, 4), portal(y, 1));
-        Checks.row(Checks.of(1, 3, 4, 0, 4, 6), portal(y, 2));
+        Checks.row(Checks.of(0, 2, 4, 0, 4, 2), Facts.portal(y, 0));
+        Checks.row(Checks.of(1, 2, 4, 0, 4, 4), Facts.portal(y, 1));
+        Checks.row(Checks.of(1, 3, 4, 0, 4, 6), Facts.portal(y, 2));
     }
 
     private static void sameRoom() {
@@ -98,10 +82,10 @@ final class AccessEdgeTest {
         y.door(4, 4, 10, 1);
         Checks.due(3, y.find());
         Checks.due(2 + 1 + 1, y.build(0));
-        Checks.row(Checks.of(1, 0, 4, 0, 2, 5), portal(y, 0));
-        Checks.row(Checks.of(2, 0, 4, 0, 4, 5), portal(y, 1));
-        Checks.row(Checks.of(1, 0, 4, 1, 2, 5), portal(y, 2));
-        Checks.row(Checks.of(2, 0, 4, 2, 4, 5), portal(y, 3));
+        Checks.row(Checks.of(1, 0, 4, 0, 2, 5), Facts.portal(y, 0));
+        Checks.row(Checks.of(2, 0, 4, 0, 4, 5), Facts.portal(y, 1));
+        Checks.row(Checks.of(1, 0, 4, 1, 2, 5), Facts.portal(y, 2));
+        Checks.row(Checks.of(2, 0, 4, 2, 4, 5), Facts.portal(y, 3));
     }
 
     private static void firstCells() {
@@ -113,10 +97,10 @@ final class AccessEdgeTest {
         x.door(3, 23, 24, 1);
         x.find();
         Checks.due(4, x.build(0));
-        Checks.row(Checks.of(0, 1, 0, 0, 0, 0), portal(x, 0));
-        Checks.row(Checks.of(1, 0, 1, 0, 23, 24), portal(x, 1));
-        Checks.row(Checks.of(1, 0, 2, 0, -1, 0), portal(x, 2));
-        Checks.row(Checks.of(0, 1, 3, 0, 23, 23), portal(x, 3));
+        Checks.row(Checks.of(0, 1, 0, 0, 0, 0), Facts.portal(x, 0));
+        Checks.row(Checks.of(1, 0, 1, 0, 23, 24), Facts.portal(x, 1));
+        Checks.row(Checks.of(1, 0, 2, 0, -1, 0), Facts.portal(x, 2));
+        Checks.row(Checks.of(0, 1, 3, 0, 23, 23), Facts.portal(x, 3));
         // Where A is the outside, but not beyond the cells, it is the outside's cell.
         TowerHouse y = new TowerHouse();
         PlanTest.square(y, 1, 1, 22);
@@ -124,8 +108,8 @@ final class AccessEdgeTest {
         y.door(2, 5, 6, 1);
         y.find();
         y.build(0);
-        Checks.row(Checks.of(1, 0, 1, 0, 6, 23), portal(y, 0));
-        Checks.row(Checks.of(1, 0, 2, 0, 0, 6), portal(y, 1));
+        Checks.row(Checks.of(1, 0, 1, 0, 6, 23), Facts.portal(y, 0));
+        Checks.row(Checks.of(1, 0, 2, 0, 0, 6), Facts.portal(y, 1));
     }
 
     private static void noPortal() {
@@ -179,7 +163,7 @@ final class AccessEdgeTest {
         TowerHouse y = Houses.four();
         y.pass(50);
         Checks.due(0, y.person(0, 1));
-        Checks.row(Checks.of(OUT, -1, -1, -1, 0, 0), where(y, 0));
+        Checks.row(Checks.of(OUT, -1, -1, -1, 0, 0), Facts.where(y, 0));
     }
 
     private static void sixtyCards() {
@@ -571,7 +555,7 @@ final class AccessEdgeTest {
         }
         Checks.argument(() -> x.both(0, 0, 0, 0));
         Checks.argument(() -> x.both(1, 1, 0, 0));
-        Checks.row(Checks.of(OUT, -1, -1, -1, 0, 0), where(x, 0));
+        Checks.row(Checks.of(OUT, -1, -1, -1, 0, 0), Facts.where(x, 0));
     }
 
     private static void leastCell() {
@@ -588,19 +572,19 @@ final class AccessEdgeTest {
         x.card(0, 9);
         x.right(0, 0, 0, 1439, 0);
         // Portals: 0 from 1 to 4 (1 above 0), 1 from 4 to 8 (1 above 2), 2 from 8 to 11 (3 above 2).
-        Checks.row(Checks.of(1, 0, 4, 0, 1, 6), portal(x, 0));
-        Checks.row(Checks.of(1, 2, 4, 0, 4, 6), portal(x, 1));
-        Checks.row(Checks.of(3, 2, 4, 0, 8, 6), portal(x, 2));
+        Checks.row(Checks.of(1, 0, 4, 0, 1, 6), Facts.portal(x, 0));
+        Checks.row(Checks.of(1, 2, 4, 0, 4, 6), Facts.portal(x, 1));
+        Checks.row(Checks.of(3, 2, 4, 0, 8, 6), Facts.portal(x, 2));
         x.off(1, true);
         Checks.due(0, x.ask(0, 1, 2));
         x.pass(7);
         Checks.due(1, x.off(1, false));
-        Checks.row(Checks.of(2, 4, 5, -1, 0, 7), where(x, 0));
+        Checks.row(Checks.of(2, 4, 5, -1, 0, 7), Facts.where(x, 0));
         Checks.due(0, x.ask(0, 1, 1));
-        Checks.row(Checks.of(1, 4, 6, -1, 0, 7), where(x, 0));
+        Checks.row(Checks.of(1, 4, 6, -1, 0, 7), Facts.where(x, 0));
         x.pass(1);
         Checks.due(0, x.ask(0, 0, 0));
-        Checks.row(Checks.of(0, 1, 5, -1, 0, 8), where(x, 0));
+        Checks.row(Checks.of(0, 1, 5, -1, 0, 8), Facts.where(x, 0));
     }
 
     private static void bothReasons() {
@@ -631,8 +615,8 @@ final class AccessEdgeTest {
         // Two may ask together where one would do.
         x.right(1, 1, 0, 1439, 0);
         Checks.due(0, x.both(2, 1, 0, 0));
-        Checks.row(Checks.of(0, 1, 0, -1, 0, 0), where(x, 0));
-        Checks.row(Checks.of(0, 1, 0, -1, 0, 0), where(x, 1));
+        Checks.row(Checks.of(0, 1, 0, -1, 0, 0), Facts.where(x, 0));
+        Checks.row(Checks.of(0, 1, 0, -1, 0, 0), Facts.where(x, 1));
         x.pass(60);
         Checks.due(2, x.both(2, 1, 0, OUT));
     }

@@ -26,23 +26,15 @@ final class AccessTest {
         Checks.test("P8-13 before the house is built", AccessTest::planned);
     }
 
-    private static long[] portal(TowerHouse x, int portal) {
-        long[] all = new long[6];
-        for (int what = 0; what < 6; what++) {
-            all[what] = x.portal(portal, what);
-        }
-        return all;
-    }
-
     private static void portals() {
         TowerHouse x = Houses.four();
         Checks.due(6, x.told(0));
-        Checks.row(Checks.of(0, 4, 0, 0, 1, 0), portal(x, 0));
-        Checks.row(Checks.of(1, 0, 1, 0, 1, 4), portal(x, 1));
-        Checks.row(Checks.of(3, 2, 1, 1, 5, 4), portal(x, 2));
-        Checks.row(Checks.of(0, 2, 4, 0, 3, 1), portal(x, 3));
-        Checks.row(Checks.of(1, 3, 4, 1, 3, 5), portal(x, 4));
-        Checks.row(Checks.of(3, 4, 5, 0, 7, 6), portal(x, 5));
+        Checks.row(Checks.of(0, 4, 0, 0, 1, 0), Facts.portal(x, 0));
+        Checks.row(Checks.of(1, 0, 1, 0, 1, 4), Facts.portal(x, 1));
+        Checks.row(Checks.of(3, 2, 1, 1, 5, 4), Facts.portal(x, 2));
+        Checks.row(Checks.of(0, 2, 4, 0, 3, 1), Facts.portal(x, 3));
+        Checks.row(Checks.of(1, 3, 4, 1, 3, 5), Facts.portal(x, 4));
+        Checks.row(Checks.of(3, 4, 5, 0, 7, 6), Facts.portal(x, 5));
         // A door over three pieces, in the middle of which a line ends; one more with one room on both sides.
         TowerHouse y = new TowerHouse();
         PlanTest.square(y, 0, 0, 8);
@@ -55,10 +47,10 @@ final class AccessTest {
         y.door(4, 3, 5, 1);
         Checks.due(3, y.find());
         Checks.due(4, y.build(0));
-        Checks.row(Checks.of(1, 0, 4, 0, 2, 4), portal(y, 0));
-        Checks.row(Checks.of(1, 2, 4, 0, 3, 4), portal(y, 1));
-        Checks.row(Checks.of(1, 2, 4, 0, 5, 4), portal(y, 2));
-        Checks.row(Checks.of(1, 2, 4, 1, 3, 4), portal(y, 3));
+        Checks.row(Checks.of(1, 0, 4, 0, 2, 4), Facts.portal(y, 0));
+        Checks.row(Checks.of(1, 2, 4, 0, 3, 4), Facts.portal(y, 1));
+        Checks.row(Checks.of(1, 2, 4, 0, 5, 4), Facts.portal(y, 2));
+        Checks.row(Checks.of(1, 2, 4, 1, 3, 4), Facts.portal(y, 3));
     }
 
     private static void portalEdges() {
@@ -70,10 +62,10 @@ final class AccessTest {
         x.door(3, 5, 6, 1);
         x.find();
         Checks.due(4, x.build(0));
-        Checks.row(Checks.of(0, 1, 0, 0, 5, 0), portal(x, 0));
-        Checks.row(Checks.of(1, 0, 1, 0, 5, 24), portal(x, 1));
-        Checks.row(Checks.of(1, 0, 2, 0, -1, 5), portal(x, 2));
-        Checks.row(Checks.of(0, 1, 3, 0, 23, 5), portal(x, 3));
+        Checks.row(Checks.of(0, 1, 0, 0, 5, 0), Facts.portal(x, 0));
+        Checks.row(Checks.of(1, 0, 1, 0, 5, 24), Facts.portal(x, 1));
+        Checks.row(Checks.of(1, 0, 2, 0, -1, 5), Facts.portal(x, 2));
+        Checks.row(Checks.of(0, 1, 3, 0, 23, 5), Facts.portal(x, 3));
         Checks.argument(() -> x.portal(4, 0));
         Checks.argument(() -> x.portal(-1, 0));
         Checks.argument(() -> x.portal(0, 6));
@@ -91,7 +83,7 @@ final class AccessTest {
         Checks.argument(() -> x.person(10, 1));
         Checks.argument(() -> x.person(0, 0));
         Checks.argument(() -> x.person(0, 6));
-        Checks.row(Checks.of(OUT, -1, -1, -1, 0, 0), where(x, 39));
+        Checks.row(Checks.of(OUT, -1, -1, -1, 0, 0), Facts.where(x, 39));
         for (int k = 0; k < 60; k++) {
             Checks.due(k, x.card(k % 3, k % 2 * 1000000));
         }
@@ -100,14 +92,6 @@ final class AccessTest {
         Checks.argument(() -> x.card(-1, 5));
         Checks.argument(() -> x.card(0, -1));
         Checks.argument(() -> x.card(0, 1000001));
-    }
-
-    private static long[] where(TowerHouse x, int person) {
-        long[] all = new long[6];
-        for (int what = 0; what < 6; what++) {
-            all[what] = x.where(person, what);
-        }
-        return all;
     }
 
     private static void rightsEndsLost() {
@@ -316,7 +300,7 @@ final class AccessTest {
         Checks.argument(() -> x.ask(0, 0, 1));
         Checks.argument(() -> x.ask(0, 0, 5));
         Checks.argument(() -> x.ask(0, 0, -1));
-        Checks.row(Checks.of(OUT, -1, -1, -1, 0, 0), where(x, 0));
+        Checks.row(Checks.of(OUT, -1, -1, -1, 0, 0), Facts.where(x, 0));
     }
 
     private static void cells() {
@@ -328,21 +312,21 @@ final class AccessTest {
         }
         x.pass(3);
         Checks.due(0, x.ask(0, 0, 0));
-        Checks.row(Checks.of(0, 1, 0, -1, 0, 3), where(x, 0));
+        Checks.row(Checks.of(0, 1, 0, -1, 0, 3), Facts.where(x, 0));
         x.pass(2);
         Checks.due(0, x.ask(0, 3, 2));
-        Checks.row(Checks.of(2, 4, 1, -1, 0, 5), where(x, 0));
+        Checks.row(Checks.of(2, 4, 1, -1, 0, 5), Facts.where(x, 0));
         Checks.due(0, x.ask(0, 2, 3));
-        Checks.row(Checks.of(3, 5, 4, -1, 0, 5), where(x, 0));
+        Checks.row(Checks.of(3, 5, 4, -1, 0, 5), Facts.where(x, 0));
         Checks.due(0, x.ask(0, 4, 1));
-        Checks.row(Checks.of(1, 3, 5, -1, 0, 5), where(x, 0));
+        Checks.row(Checks.of(1, 3, 5, -1, 0, 5), Facts.where(x, 0));
         Checks.due(0, x.ask(0, 1, 0));
-        Checks.row(Checks.of(0, 1, 3, -1, 0, 5), where(x, 0));
+        Checks.row(Checks.of(0, 1, 3, -1, 0, 5), Facts.where(x, 0));
         x.pass(1);
         Checks.due(0, x.ask(0, 0, OUT));
-        Checks.row(Checks.of(OUT, -1, -1, -1, 0, 6), where(x, 0));
+        Checks.row(Checks.of(OUT, -1, -1, -1, 0, 6), Facts.where(x, 0));
         Checks.due(0, x.ask(0, 5, 3));
-        Checks.row(Checks.of(3, 7, 6, -1, 0, 6), where(x, 0));
+        Checks.row(Checks.of(3, 7, 6, -1, 0, 6), Facts.where(x, 0));
         Checks.argument(() -> x.where(1, 0));
         Checks.argument(() -> x.where(-1, 0));
         Checks.argument(() -> x.where(0, 6));
@@ -384,14 +368,6 @@ final class AccessTest {
         Checks.argument(() -> x.both(0, 2, 0, 1));
     }
 
-    /** Releases the house: switch 0 does act 0 of kind 0. */
-    private static void release(TowerHouse x) {
-        Houses.matrix(x, "zone 0 needs 1 of 4; act 0 kind 0 rank 0 delay 0; when 0 does 0;");
-        x.signal(4, 50);
-        x.pass(1);
-        Checks.due(1, x.told(5));
-    }
-
     private static void released() {
         TowerHouse x = Houses.four();
         x.person(0, 1);
@@ -401,7 +377,7 @@ final class AccessTest {
         x.two(0, true);
         x.airlock(0, 1, true);
         x.stands(1, true);
-        release(x);
+        OffEdgeTest.release(x, true);
         Checks.due(4, x.ask(0, 0, OUT));
         Checks.due(0, x.ask(0, 0, 0));
         Checks.due(0, x.where(0, 0));
@@ -448,8 +424,8 @@ final class AccessTest {
         Checks.due(0, x.ask(1, 0, 0));
         x.pass(9);
         Checks.due(6, x.off(0, false));
-        Checks.row(Checks.of(0, 1, 0, -1, 0, 69), where(x, 0));
-        Checks.row(Checks.of(0, 1, 0, -1, 0, 69), where(x, 1));
+        Checks.row(Checks.of(0, 1, 0, -1, 0, 69), Facts.where(x, 0));
+        Checks.row(Checks.of(0, 1, 0, -1, 0, 69), Facts.where(x, 1));
         Checks.due(0, x.against(0, 0));
         Checks.due(0, x.off(0, false));
         // It asks again where the person is.
@@ -476,7 +452,7 @@ final class AccessTest {
         x.lost(0, 0);
         x.two(0, true);
         Checks.state(() -> x.ask(0, 0, 0));
-        release(x);
+        OffEdgeTest.release(x, true);
         Checks.state(() -> x.ask(0, 0, 0));
         Checks.due(20, x.off(0, false));
         Checks.due(19, x.against(0, 0));
@@ -524,11 +500,7 @@ final class AccessTest {
         // When it joins all is known: the card was lost from minute 0 on.
         Checks.due(1, x.off(0, false));
         Checks.due(1, x.against(7, 0));
-        Checks.row(Checks.of(0, 0, 0, 3), against(x, 0));
-    }
-
-    private static long[] against(TowerHouse x, int k) {
-        return Checks.of(x.against(k, 1), x.against(k, 2), x.against(k, 3), x.against(k, 4));
+        Checks.row(Checks.of(0, 0, 0, 3), Facts.against(x, 0));
     }
 
     private static void caught() {
@@ -548,18 +520,18 @@ final class AccessTest {
         Checks.due(0, x.ask(0, 0, OUT));
         Checks.due(0, x.ask(0, 0, 0));
         x.pass(1);
-        Checks.row(Checks.of(0, 1, 0, 1, 0, 0), where(x, 0));
+        Checks.row(Checks.of(0, 1, 0, 1, 0, 0), Facts.where(x, 0));
         Checks.due(9, x.ask(0, 0, OUT));
         Checks.due(9, x.ask(0, 1, 1));
         Checks.due(9, x.both(1, 0, 1, 1));
         x.pass(4);
         // The caught one stays; its row is against all the same.
         Checks.due(2, x.off(1, false));
-        Checks.row(Checks.of(0, 1, 0, 1, 0, 0), where(x, 0));
-        Checks.row(Checks.of(1, 1, 4, -1, 0, 5), where(x, 1));
+        Checks.row(Checks.of(0, 1, 0, 1, 0, 0), Facts.where(x, 0));
+        Checks.row(Checks.of(1, 1, 4, -1, 0, 5), Facts.where(x, 1));
         Checks.due(2, x.against(-1, 0));
-        Checks.row(Checks.of(1, 0, 0, 5), against(x, 0));
-        Checks.row(Checks.of(1, 1, 0, 5), against(x, 1));
+        Checks.row(Checks.of(1, 0, 0, 5), Facts.against(x, 0));
+        Checks.row(Checks.of(1, 1, 0, 5), Facts.against(x, 1));
     }
 
     private static void inside() {
@@ -609,7 +581,7 @@ final class AccessTest {
             all += 20 - round;
             Checks.due(all, x.against(0, 0));
         }
-        Checks.row(Checks.of(0, 0, 0, 3), against(x, 99));
+        Checks.row(Checks.of(0, 0, 0, 3), Facts.against(x, 99));
         Checks.argument(() -> x.against(100, 1));
         Checks.argument(() -> x.against(-1, 1));
         Checks.argument(() -> x.against(0, 5));

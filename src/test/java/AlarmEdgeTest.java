@@ -43,14 +43,6 @@ final class AlarmEdgeTest {
         return x;
     }
 
-    private static long[] zone(TowerHouse x, int zone) {
-        return Checks.of(x.zone(zone, 0), x.zone(zone, 1), x.zone(zone, 2), x.zone(zone, 3));
-    }
-
-    private static long[] event(TowerHouse x, int k) {
-        return Checks.of(x.event(k, 0), x.event(k, 1), x.event(k, 2));
-    }
-
     private static void pointNumbers() {
         TowerHouse x = Houses.four();
         int[] none = {-1, 14, LEAST, GREATEST};
@@ -181,7 +173,7 @@ final class AlarmEdgeTest {
         x.matrix();
         for (int on = 0; on < 4; on++) {
             for (int zone = 0; zone < 3; zone++) {
-                Checks.row(Checks.of(on > zone ? 1 : 0, on == 3 ? 1 : 0, zone + 1, on), zone(x, zone));
+                Checks.row(Checks.of(on > zone ? 1 : 0, on == 3 ? 1 : 0, zone + 1, on), Facts.zone(x, zone));
             }
             x.signal(4 + on, 50);
         }
@@ -194,7 +186,7 @@ final class AlarmEdgeTest {
             Checks.due(k - 2, y.zone(0, 3));
             y.signal(k, 50);
         }
-        Checks.row(Checks.of(1, 1, 12, 12), zone(y, 0));
+        Checks.row(Checks.of(1, 1, 12, 12), Facts.zone(y, 0));
     }
 
     private static void zonesSure() {
@@ -204,21 +196,21 @@ final class AlarmEdgeTest {
         x.signal(4, 50);
         // Two that are not on, faulty and disabled: they do not count, and the one is all that there is.
         x.fault(5, true);
-        Checks.row(Checks.of(0, 0, 2, 1), zone(x, 0));
+        Checks.row(Checks.of(0, 0, 2, 1), Facts.zone(x, 0));
         x.disable(6, 9);
-        Checks.row(Checks.of(0, 1, 2, 1), zone(x, 0));
+        Checks.row(Checks.of(0, 1, 2, 1), Facts.zone(x, 0));
         // None is left: it is not sure.
         x.fault(4, true);
-        Checks.row(Checks.of(0, 0, 2, 0), zone(x, 0));
+        Checks.row(Checks.of(0, 0, 2, 0), Facts.zone(x, 0));
         x.fault(4, false);
         x.disable(4, 9);
-        Checks.row(Checks.of(0, 0, 2, 0), zone(x, 0));
+        Checks.row(Checks.of(0, 0, 2, 0), Facts.zone(x, 0));
         x.pass(9);
-        Checks.row(Checks.of(0, 0, 2, 1), zone(x, 0));
+        Checks.row(Checks.of(0, 0, 2, 1), Facts.zone(x, 0));
         x.signal(6, 50);
-        Checks.row(Checks.of(1, 1, 2, 2), zone(x, 0));
+        Checks.row(Checks.of(1, 1, 2, 2), Facts.zone(x, 0));
         x.fault(5, false);
-        Checks.row(Checks.of(1, 0, 2, 2), zone(x, 0));
+        Checks.row(Checks.of(1, 0, 2, 2), Facts.zone(x, 0));
     }
 
     private static void rowsMet() {
@@ -260,15 +252,15 @@ final class AlarmEdgeTest {
         Checks.due(8, x.act(1, 1));
         x.pass(1);
         Checks.due(2, x.act(1, 0));
-        Checks.row(Checks.of(9, 1, 1), event(x, 0));
-        Checks.row(Checks.of(8, 0, 1), event(x, 1));
+        Checks.row(Checks.of(9, 1, 1), Facts.event(x, 0));
+        Checks.row(Checks.of(8, 0, 1), Facts.event(x, 1));
         Houses.pass(x, 598);
         Checks.due(607, x.told(8));
         Checks.due(1, x.act(2, 0));
         Checks.due(8, x.act(2, 1));
         x.pass(1);
         Checks.due(2, x.act(2, 0));
-        Checks.row(Checks.of(608, 2, 1), event(x, 0));
+        Checks.row(Checks.of(608, 2, 1), Facts.event(x, 0));
         Checks.due(3, x.told(2));
     }
 
@@ -344,15 +336,15 @@ final class AlarmEdgeTest {
         Checks.due(2, x.act(1, 0));
         // One that waits does not latch.
         Checks.due(0, x.act(2, 0));
-        Checks.row(Checks.of(2, 0, 0), event(x, 0));
+        Checks.row(Checks.of(2, 0, 0), Facts.event(x, 0));
         x.pass(60);
         Checks.due(2, x.act(1, 0));
         // Called again while it is latched: no other event.
         x.signal(4, 50);
         x.pass(1);
         Checks.due(2, x.act(1, 0));
-        Checks.row(Checks.of(63, 0, 1), event(x, 0));
-        Checks.row(Checks.of(2, 0, 0), event(x, 1));
+        Checks.row(Checks.of(63, 0, 1), Facts.event(x, 0));
+        Checks.row(Checks.of(2, 0, 0), Facts.event(x, 1));
     }
 
     private static void looks() {
@@ -474,8 +466,8 @@ final class AlarmEdgeTest {
         // Called is asked as the points are now, not as they were in the second.
         x.signal(4, 49);
         Checks.due(2, x.reset());
-        Checks.row(Checks.of(1, 5, 0), event(x, 0));
-        Checks.row(Checks.of(1, 6, 0), event(x, 1));
+        Checks.row(Checks.of(1, 5, 0), Facts.event(x, 0));
+        Checks.row(Checks.of(1, 6, 0), Facts.event(x, 1));
         Checks.due(0, x.act(5, 0));
         Checks.due(2, x.act(7, 0));
         // What does not latch is not reset: it rests by itself in the next second.
@@ -489,7 +481,7 @@ final class AlarmEdgeTest {
         x.signal(6, 0);
         x.pass(9);
         Checks.due(1, x.reset());
-        Checks.row(Checks.of(11, 7, 0), event(x, 0));
+        Checks.row(Checks.of(11, 7, 0), Facts.event(x, 0));
         // What is disabled does not call, either; time counts.
         x.signal(6, 50);
         x.pass(1);
@@ -508,12 +500,12 @@ final class AlarmEdgeTest {
         x.pass(1);
         int[] order = {19, 4, 2, 3, 0, 18};
         for (int k = 0; k < 6; k++) {
-            Checks.row(Checks.of(1, order[k], 1), event(x, 5 - k));
+            Checks.row(Checks.of(1, order[k], 1), Facts.event(x, 5 - k));
         }
         x.signal(4, 0);
         x.pass(1);
         for (int k = 0; k < 6; k++) {
-            Checks.row(Checks.of(2, order[k], 0), event(x, 5 - k));
+            Checks.row(Checks.of(2, order[k], 0), Facts.event(x, 5 - k));
         }
     }
 
@@ -527,18 +519,18 @@ final class AlarmEdgeTest {
             x.signal(4, k % 2 * 50);
             x.pass(1);
         }
-        Checks.row(Checks.of(59, 0, 1), event(x, 0));
-        Checks.row(Checks.of(1, 0, 1), event(x, 58));
+        Checks.row(Checks.of(59, 0, 1), Facts.event(x, 0));
+        Checks.row(Checks.of(1, 0, 1), Facts.event(x, 58));
         Checks.argument(() -> x.event(59, 0));
         x.signal(4, 0);
         x.pass(1);
-        Checks.row(Checks.of(1, 0, 1), event(x, 59));
+        Checks.row(Checks.of(1, 0, 1), Facts.event(x, 59));
         Checks.argument(() -> x.event(60, 0));
         x.signal(4, 50);
         x.pass(1);
-        Checks.row(Checks.of(61, 0, 1), event(x, 0));
-        Checks.row(Checks.of(60, 0, 0), event(x, 1));
-        Checks.row(Checks.of(2, 0, 0), event(x, 59));
+        Checks.row(Checks.of(61, 0, 1), Facts.event(x, 0));
+        Checks.row(Checks.of(60, 0, 0), Facts.event(x, 1));
+        Checks.row(Checks.of(2, 0, 0), Facts.event(x, 59));
         Checks.argument(() -> x.event(60, 0));
         int[] noWhat = {-1, 3, LEAST, GREATEST};
         for (int v : noWhat) {
@@ -580,7 +572,7 @@ final class AlarmEdgeTest {
         x.pass(1);
         Checks.due(6, x.station(7, 0));
         Checks.due(0, x.act(4, 0));
-        Checks.row(Checks.of(2, 19, 0), event(x, 0));
+        Checks.row(Checks.of(2, 19, 0), Facts.event(x, 0));
         // Group 19, data 1 and 2; then 0 and 1. Without a listener it is said four times and lost.
         TowerHouse y = alarm("act 19 kind 2 rank 0 delay 0;when 0 does 19;");
         y.listen(2, 19, true);

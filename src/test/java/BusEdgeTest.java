@@ -37,14 +37,6 @@ final class BusEdgeTest {
         Houses.pass(x, second - x.told(8));
     }
 
-    private static long[] station(TowerHouse x, int station) {
-        long[] all = new long[6];
-        for (int what = 0; what < 6; what++) {
-            all[what] = x.station(station, what);
-        }
-        return all;
-    }
-
     private static void addresses() {
         TowerHouse x = Houses.four();
         int[] wrong = {-1, 65536, LEAST, GREATEST};
@@ -266,9 +258,9 @@ final class BusEdgeTest {
             TowerHouse x = Houses.four();
             x.send(0, priority, 99, false, 7, 0);
             x.pass(5);
-            Checks.row(Checks.of(1, 1, 0, 0, 0, 0), station(x, 0));
+            Checks.row(Checks.of(1, 1, 0, 0, 0, 0), Facts.station(x, 0));
             x.pass(1);
-            Checks.row(Checks.of(1, 0, 1, 0, 0, 0), station(x, 0));
+            Checks.row(Checks.of(1, 0, 1, 0, 0, 0), Facts.station(x, 0));
         }
     }
 
@@ -346,7 +338,7 @@ final class BusEdgeTest {
             y.send(0, 0, 1, false, 1, 0);
             y.disturb(at);
             passTo(y, (at + 29) / 30);
-            Checks.row(Checks.of(1, 0, 0, 0, 0, 1), station(y, 0));
+            Checks.row(Checks.of(1, 0, 0, 0, 0, 1), Facts.station(y, 0));
             // That was no saying: it is said as for the first time.
             passTo(y, 9);
             Checks.due(176, y.byteAt(0));
@@ -366,15 +358,15 @@ final class BusEdgeTest {
         TowerHouse x = idleSince(60);
         x.send(0, 0, 1, false, 1, 0);
         passTo(x, 7);
-        Checks.row(Checks.of(1, 1, 0, 0, 0, 0), station(x, 0));
+        Checks.row(Checks.of(1, 1, 0, 0, 0, 0), Facts.station(x, 0));
         passTo(x, 8);
-        Checks.row(Checks.of(0, 0, 0, 1, 0, 0), station(x, 0));
+        Checks.row(Checks.of(0, 0, 0, 1, 0, 0), Facts.station(x, 0));
         TowerHouse y = idleSince(31);
         y.send(0, 0, 1, false, 1, 0);
         passTo(y, 7);
-        Checks.row(Checks.of(1, 0, 1, 0, 0, 0), station(y, 0));
+        Checks.row(Checks.of(1, 0, 1, 0, 0, 0), Facts.station(y, 0));
         passTo(y, 8);
-        Checks.row(Checks.of(0, 0, 0, 1, 0, 0), station(y, 0));
+        Checks.row(Checks.of(0, 0, 0, 1, 0, 0), Facts.station(y, 0));
         // While it waits it says nothing, even if it has more; and it does not answer.
         TowerHouse z = Houses.four();
         z.send(0, 0, 0, false, 1, 0);
@@ -400,9 +392,9 @@ final class BusEdgeTest {
             Checks.due(controls[times - 1], x.byteAt(0));
         }
         x.pass(1);
-        Checks.row(Checks.of(1, 0, 0, 0, 1, 0), station(x, 0));
+        Checks.row(Checks.of(1, 0, 0, 0, 1, 0), Facts.station(x, 0));
         x.pass(8);
-        Checks.row(Checks.of(0, 0, 0, 1, 1, 0), station(x, 0));
+        Checks.row(Checks.of(0, 0, 0, 1, 1, 0), Facts.station(x, 0));
         Checks.due(180, x.byteAt(0));
         Checks.due(5, x.heard(0));
         // Taken at the fourth time it is SAID.
@@ -417,7 +409,7 @@ final class BusEdgeTest {
             y.pass(1);
         }
         y.pass(2);
-        Checks.row(Checks.of(0, 0, 0, 1, 0, 0), station(y, 0));
+        Checks.row(Checks.of(0, 0, 0, 1, 0, 0), Facts.station(y, 0));
     }
 
     private static void stationNumbers() {
@@ -430,10 +422,10 @@ final class BusEdgeTest {
             Checks.argument(() -> x.station(v, 0));
         }
         for (int k = 0; k < 8; k++) {
-            Checks.row(Checks.of(0, 0, 0, 0, 0, 0), station(x, k));
+            Checks.row(Checks.of(0, 0, 0, 0, 0, 0), Facts.station(x, k));
         }
         x.send(7, 0, 1, false, 1, 0);
-        Checks.row(Checks.of(1, 0, 0, 0, 0, 0), station(x, 7));
-        Checks.row(Checks.of(0, 0, 0, 0, 0, 0), station(x, 6));
+        Checks.row(Checks.of(1, 0, 0, 0, 0, 0), Facts.station(x, 7));
+        Checks.row(Checks.of(0, 0, 0, 0, 0, 0), Facts.station(x, 6));
     }
 }

@@ -201,26 +201,18 @@ final class BusTest {
     private static void states() {
         TowerHouse x = Houses.four();
         x.send(0, 0, 9, false, 1, 0);
-        Checks.row(Checks.of(1, 0, 0, 0, 0, 0), station(x, 0));
+        Checks.row(Checks.of(1, 0, 0, 0, 0, 0), Facts.station(x, 0));
         x.pass(1);
-        Checks.row(Checks.of(1, 1, 0, 0, 0, 0), station(x, 0));
+        Checks.row(Checks.of(1, 1, 0, 0, 0, 0), Facts.station(x, 0));
         x.pass(3);
         // T is 102; it waits up to 130.
-        Checks.row(Checks.of(1, 0, 1, 0, 0, 0), station(x, 0));
+        Checks.row(Checks.of(1, 0, 1, 0, 0, 0), Facts.station(x, 0));
         x.pass(1);
-        Checks.row(Checks.of(1, 0, 0, 0, 0, 0), station(x, 0));
+        Checks.row(Checks.of(1, 0, 0, 0, 0, 0), Facts.station(x, 0));
         Checks.argument(() -> x.station(8, 0));
         Checks.argument(() -> x.station(-1, 0));
         Checks.argument(() -> x.station(0, 6));
         Checks.argument(() -> x.station(0, -1));
-    }
-
-    private static long[] station(TowerHouse x, int station) {
-        long[] all = new long[6];
-        for (int what = 0; what < 6; what++) {
-            all[what] = x.station(station, what);
-        }
-        return all;
     }
 
     private static void disturbances() {

@@ -85,6 +85,15 @@ final class Houses {
         return x.matrix();
     }
 
+    /** Persons leave from the next second on, in a house of so many rooms: by its first switch. */
+    static void leave(TowerHouse x, int rooms) {
+        x.sentence(0, 0, 1, rooms, 1);
+        x.sentence(1, 0, 4, 0, 0);
+        x.sentence(2, 0, 0, 0, 0);
+        x.matrix();
+        x.signal(rooms, 100);
+    }
+
     static void pass(TowerHouse x, int seconds) {
         while (seconds > 0) {
             int n = Math.min(60, seconds);

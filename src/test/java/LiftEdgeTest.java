@@ -27,12 +27,8 @@ final class LiftEdgeTest {
         Checks.test("P27 edge: given, 'NONE if it was not given (or none was made)', 'there never was such a call'", LiftEdgeTest::given);
     }
 
-    private static long[] given(TowerHouse x, int call) {
-        return Checks.of(x.given(call, 0), x.given(call, 1), x.given(call, 2), x.given(call, 3));
-    }
-
     private static void none(TowerHouse x, int call) {
-        Checks.row(Checks.of(-1, -1, -1, -1), given(x, call));
+        Checks.row(Checks.of(-1, -1, -1, -1), Facts.given(x, call));
     }
 
     private static void fourCars() {
@@ -59,9 +55,9 @@ final class LiftEdgeTest {
         x.call(59, 58);
         x.call(0, 1);
         x.give();
-        Checks.row(Checks.of(2, 0, 8, 0), given(x, 0));
-        Checks.row(Checks.of(3, 0, 4, 0), given(x, 1));
-        Checks.row(Checks.of(0, 0, 4, 0), given(x, 2));
+        Checks.row(Checks.of(2, 0, 8, 0), Facts.given(x, 0));
+        Checks.row(Checks.of(3, 0, 4, 0), Facts.given(x, 1));
+        Checks.row(Checks.of(0, 0, 4, 0), Facts.given(x, 2));
         // Free at once, also if it comes late.
         TowerHouse y = Houses.four();
         y.pass(50);
@@ -206,7 +202,7 @@ final class LiftEdgeTest {
         Checks.due(true, x.begin(0, -1));
         Checks.due(true, x.begin(1, 0));
         x.give();
-        Checks.row(Checks.of(0, 7, 11, 0), given(x, 1));
+        Checks.row(Checks.of(0, 7, 11, 0), Facts.given(x, 1));
         // Done, it is begun no more, and its car may begin another one.
         x.done(1);
         Checks.due(true, x.begin(0, 0));
@@ -246,7 +242,7 @@ final class LiftEdgeTest {
         for (int k = 0; k < seconds.length; k++) {
             x.free(0, 0, seconds[k]);
             Checks.due(2 * picks[k] + 4, x.give());
-            Checks.row(Checks.of(0, picks[k], picks[k] + 4, 0), given(x, 0));
+            Checks.row(Checks.of(0, picks[k], picks[k] + 4, 0), Facts.given(x, 0));
         }
     }
 
@@ -271,14 +267,14 @@ final class LiftEdgeTest {
         x.car(10, 5);
         x.call(10, 11);
         Checks.due(8, x.give());
-        Checks.row(Checks.of(0, 0, 8, 0), given(x, 0));
+        Checks.row(Checks.of(0, 0, 8, 0), Facts.given(x, 0));
         // Stops 3 seconds at its goal, too, before it goes on.
         x.call(11, 10);
         Checks.due(8 + 11 + 19, x.give());
-        Checks.row(Checks.of(0, 11, 19, 1), given(x, 1));
+        Checks.row(Checks.of(0, 11, 19, 1), Facts.given(x, 1));
         x.call(20, 19);
         Checks.due(8 + 11 + 19 + 72 + 80, x.give());
-        Checks.row(Checks.of(0, 72, 80, 2), given(x, 2));
+        Checks.row(Checks.of(0, 72, 80, 2), Facts.given(x, 2));
     }
 
     private static void notGiven() {
@@ -292,7 +288,7 @@ final class LiftEdgeTest {
         x.span(0, 1, 59);
         Checks.due(4, x.give());
         none(x, 0);
-        Checks.row(Checks.of(0, 0, 4, 0), given(x, 1));
+        Checks.row(Checks.of(0, 0, 4, 0), Facts.given(x, 1));
         // A begun one just its car may take, if it may as its span is then; another one that could does not.
         x.car(0, 1);
         x.begin(0, 1);
@@ -317,8 +313,8 @@ final class LiftEdgeTest {
         // Begun, it comes first, however far it is.
         x.begin(1, 0);
         x.give();
-        Checks.row(Checks.of(0, 50, 54, 0), given(x, 1));
-        Checks.row(Checks.of(0, 107, 111, 1), given(x, 0));
+        Checks.row(Checks.of(0, 50, 54, 0), Facts.given(x, 1));
+        Checks.row(Checks.of(0, 107, 111, 1), Facts.given(x, 0));
         // With a second car only that which is begun stays with the first one.
         x.car(0, 5);
         x.give();
@@ -337,7 +333,7 @@ final class LiftEdgeTest {
         }
         x.give();
         for (int k = 0; k < 4; k++) {
-            Checks.row(Checks.of(k, 0, 4, 0), given(x, k));
+            Checks.row(Checks.of(k, 0, 4, 0), Facts.given(x, k));
         }
         // Call 0 costs the same with both, call 1 as well; together with one car they cost more.
         TowerHouse y = Houses.four();
@@ -463,15 +459,15 @@ final class LiftEdgeTest {
         x.car(0, 1);
         none(x, 0);
         x.give();
-        Checks.row(Checks.of(0, 1, 5, 0), given(x, 0));
+        Checks.row(Checks.of(0, 1, 5, 0), Facts.given(x, 0));
         // Done, it is still told as it was given; in the next giving it is not there.
         x.done(0);
-        Checks.row(Checks.of(0, 1, 5, 0), given(x, 0));
+        Checks.row(Checks.of(0, 1, 5, 0), Facts.given(x, 0));
         x.call(3, 4);
         none(x, 1);
         x.give();
         none(x, 0);
-        Checks.row(Checks.of(0, 3, 7, 0), given(x, 1));
+        Checks.row(Checks.of(0, 3, 7, 0), Facts.given(x, 1));
         Checks.argument(() -> x.given(2, 0));
     }
 }

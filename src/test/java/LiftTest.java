@@ -35,16 +35,12 @@ final class LiftTest {
         Checks.argument(() -> x.car(0, 6));
     }
 
-    private static long[] given(TowerHouse x, int call) {
-        return Checks.of(x.given(call, 0), x.given(call, 1), x.given(call, 2), x.given(call, 3));
-    }
-
     private static void free() {
         TowerHouse x = Houses.four();
         x.car(10, 3);
         x.call(12, 5);
         Checks.due(6 + 30, x.give());
-        Checks.row(Checks.of(0, 6, 30, 0), given(x, 0));
+        Checks.row(Checks.of(0, 6, 30, 0), Facts.given(x, 0));
         x.pass(20);
         x.free(0, 20, 50);
         // 30 seconds, 8 floors; then 3 and 7 floors.
@@ -191,8 +187,8 @@ final class LiftTest {
         x.call(11, 13);
         x.begin(1, 0);
         Checks.due(12 + 19 + 3 * (12 + 3 + 4 + 3 + 20) + 12 + 3 + 4 + 3 + 20 + 3 + 12, x.give());
-        Checks.row(Checks.of(0, 12, 19, 0), given(x, 1));
-        Checks.row(Checks.of(0, 42, 57, 1), given(x, 0));
+        Checks.row(Checks.of(0, 12, 19, 0), Facts.given(x, 1));
+        Checks.row(Checks.of(0, 42, 57, 1), Facts.given(x, 0));
     }
 
     private static void ties() {
@@ -236,7 +232,7 @@ final class LiftTest {
         Checks.due(1, x.told(6));
         Checks.due(0, x.given(0, 0));
         Checks.due(0, x.give());
-        Checks.row(Checks.of(-1, -1, -1, -1), given(x, 0));
+        Checks.row(Checks.of(-1, -1, -1, -1), Facts.given(x, 0));
         Checks.due(1, x.call(3, 4));
         Checks.due(true, x.begin(1, -1));
         x.signal(4, 0);
@@ -251,17 +247,17 @@ final class LiftTest {
         Checks.argument(() -> x.given(0, 0));
         x.car(5, 1);
         x.call(7, 6);
-        Checks.row(Checks.of(-1, -1, -1, -1), given(x, 0));
+        Checks.row(Checks.of(-1, -1, -1, -1), Facts.given(x, 0));
         x.give();
         x.call(8, 6);
-        Checks.row(Checks.of(0, 2, 6, 0), given(x, 0));
-        Checks.row(Checks.of(-1, -1, -1, -1), given(x, 1));
+        Checks.row(Checks.of(0, 2, 6, 0), Facts.given(x, 0));
+        Checks.row(Checks.of(-1, -1, -1, -1), Facts.given(x, 1));
         x.done(0);
         x.free(0, 59, 9);
-        Checks.row(Checks.of(0, 2, 6, 0), given(x, 0));
+        Checks.row(Checks.of(0, 2, 6, 0), Facts.given(x, 0));
         x.give();
-        Checks.row(Checks.of(-1, -1, -1, -1), given(x, 0));
-        Checks.row(Checks.of(0, 60, 65, 0), given(x, 1));
+        Checks.row(Checks.of(-1, -1, -1, -1), Facts.given(x, 0));
+        Checks.row(Checks.of(0, 60, 65, 0), Facts.given(x, 1));
         Checks.argument(() -> x.given(2, 0));
         Checks.argument(() -> x.given(-1, 0));
         Checks.argument(() -> x.given(0, 4));
@@ -437,7 +433,7 @@ final class LiftTest {
                 }
             }
             for (int k = 0; k < many; k++) {
-                Checks.row(due[k], given(x, k));
+                Checks.row(due[k], Facts.given(x, k));
             }
         }
     }

@@ -404,13 +404,9 @@ final class MatrixTest {
         Checks.due(2, x.reset());
         Checks.due(0, x.told(5));
         Checks.due(0, x.told(6));
-        Checks.row(Checks.of(5, 0, 0), event(x, 0));
-        Checks.row(Checks.of(5, 1, 0), event(x, 1));
+        Checks.row(Checks.of(5, 0, 0), Facts.event(x, 0));
+        Checks.row(Checks.of(5, 1, 0), Facts.event(x, 1));
         Checks.due(0, x.reset());
-    }
-
-    private static long[] event(TowerHouse x, int k) {
-        return Checks.of(x.event(k, 0), x.event(k, 1), x.event(k, 2));
     }
 
     private static void acts() {
@@ -424,18 +420,18 @@ final class MatrixTest {
         Checks.due(1, x.act(3, 0));
         x.pass(1);
         Checks.row(Checks.of(2, -1, 5, 8, 2, 0), act(x, 3));
-        Checks.row(Checks.of(3, 3, 1), event(x, 0));
+        Checks.row(Checks.of(3, 3, 1), Facts.event(x, 0));
         x.signal(4, 0);
         x.pass(1);
         Checks.due(0, x.act(3, 0));
-        Checks.row(Checks.of(4, 3, 0), event(x, 0));
+        Checks.row(Checks.of(4, 3, 0), Facts.event(x, 0));
         // Called no more while it waits: no event, and it begins anew.
         x.signal(5, 50);
         x.pass(2);
         x.signal(5, 0);
         x.pass(1);
         Checks.due(0, x.act(3, 0));
-        Checks.row(Checks.of(4, 3, 0), event(x, 0));
+        Checks.row(Checks.of(4, 3, 0), Facts.event(x, 0));
         x.signal(5, 50);
         x.pass(2);
         Checks.row(Checks.of(1, 8, 5, 8, 2, 0), act(x, 3));
@@ -481,28 +477,24 @@ final class MatrixTest {
 
     private static void zones() {
         TowerHouse x = alarm("zone 2 needs 2 of 8 9 10;");
-        Checks.row(Checks.of(0, 0, 2, 0), zone(x, 2));
+        Checks.row(Checks.of(0, 0, 2, 0), Facts.zone(x, 2));
         x.signal(8, 50);
-        Checks.row(Checks.of(0, 0, 2, 1), zone(x, 2));
+        Checks.row(Checks.of(0, 0, 2, 1), Facts.zone(x, 2));
         x.signal(9, 50);
-        Checks.row(Checks.of(1, 0, 2, 2), zone(x, 2));
+        Checks.row(Checks.of(1, 0, 2, 2), Facts.zone(x, 2));
         x.signal(10, 50);
-        Checks.row(Checks.of(1, 1, 2, 3), zone(x, 2));
+        Checks.row(Checks.of(1, 1, 2, 3), Facts.zone(x, 2));
         x.fault(10, true);
-        Checks.row(Checks.of(1, 1, 2, 2), zone(x, 2));
+        Checks.row(Checks.of(1, 1, 2, 2), Facts.zone(x, 2));
         x.disable(9, 5);
-        Checks.row(Checks.of(0, 1, 2, 1), zone(x, 2));
+        Checks.row(Checks.of(0, 1, 2, 1), Facts.zone(x, 2));
         x.fault(8, true);
-        Checks.row(Checks.of(0, 0, 2, 0), zone(x, 2));
+        Checks.row(Checks.of(0, 0, 2, 0), Facts.zone(x, 2));
         Checks.argument(() -> x.zone(3, 0));
         Checks.argument(() -> x.zone(20, 0));
         Checks.argument(() -> x.zone(-1, 0));
         Checks.argument(() -> x.zone(2, 4));
         Checks.argument(() -> x.zone(2, -1));
-    }
-
-    private static long[] zone(TowerHouse x, int zone) {
-        return Checks.of(x.zone(zone, 0), x.zone(zone, 1), x.zone(zone, 2), x.zone(zone, 3));
     }
 
     private static void events() {
@@ -511,17 +503,17 @@ final class MatrixTest {
         Checks.argument(() -> x.event(0, 0));
         x.signal(4, 50);
         x.pass(1);
-        Checks.row(Checks.of(1, 1, 1), event(x, 0));
-        Checks.row(Checks.of(1, 7, 1), event(x, 1));
-        Checks.row(Checks.of(1, 5, 1), event(x, 2));
-        Checks.row(Checks.of(1, 2, 1), event(x, 3));
+        Checks.row(Checks.of(1, 1, 1), Facts.event(x, 0));
+        Checks.row(Checks.of(1, 7, 1), Facts.event(x, 1));
+        Checks.row(Checks.of(1, 5, 1), Facts.event(x, 2));
+        Checks.row(Checks.of(1, 2, 1), Facts.event(x, 3));
         Checks.argument(() -> x.event(4, 0));
         for (int k = 0; k < 15; k++) {
             x.signal(4, k % 2 * 50);
             x.pass(1);
         }
-        Checks.row(Checks.of(16, 1, 0), event(x, 0));
-        Checks.row(Checks.of(2, 2, 0), event(x, 59));
+        Checks.row(Checks.of(16, 1, 0), Facts.event(x, 0));
+        Checks.row(Checks.of(2, 2, 0), Facts.event(x, 59));
         Checks.argument(() -> x.event(60, 0));
         Checks.argument(() -> x.event(-1, 0));
         Checks.argument(() -> x.event(0, 3));

@@ -38,20 +38,8 @@ final class OffEdgeTest {
         return x;
     }
 
-    private static long[] where(TowerHouse x, int person) {
-        long[] all = new long[6];
-        for (int what = 0; what < 6; what++) {
-            all[what] = x.where(person, what);
-        }
-        return all;
-    }
-
-    private static long[] against(TowerHouse x, int k) {
-        return Checks.of(x.against(k, 1), x.against(k, 2), x.against(k, 3), x.against(k, 4));
-    }
-
-    /** Releases the house in the second that passes; ends that. */
-    private static void release(TowerHouse x, boolean on) {
+    /** The house is released in the second that passes, or is so no more. */
+    static void release(TowerHouse x, boolean on) {
         if (on) {
             Houses.matrix(x, "zone 0 needs 1 of 4; act 0 kind 0 rank 0 delay 0; when 0 does 0;");
         }
@@ -144,7 +132,7 @@ final class OffEdgeTest {
         Checks.due(0, x.ask(0, 0, OUT));
         Checks.due(0, x.ask(0, 0, 0));
         Checks.due(0, x.ask(0, 0, 0));
-        Checks.row(Checks.of(OUT, -1, -1, -1, 0, 0), where(x, 0));
+        Checks.row(Checks.of(OUT, -1, -1, -1, 0, 0), Facts.where(x, 0));
         Checks.due(0, x.told(1));
         // It may go elsewhere in the meantime; the rows put it where they tell all the same.
         x.right(0, 4, 0, 1439, 0);
@@ -212,8 +200,8 @@ final class OffEdgeTest {
         x.ask(1, 0, 0);
         x.pass(3);
         Checks.due(4, x.off(0, false));
-        Checks.row(Checks.of(OUT, -1, -1, -1, 0, 3), where(x, 0));
-        Checks.row(Checks.of(0, 1, 0, -1, 0, 3), where(x, 1));
+        Checks.row(Checks.of(OUT, -1, -1, -1, 0, 3), Facts.where(x, 0));
+        Checks.row(Checks.of(0, 1, 0, -1, 0, 3), Facts.where(x, 1));
         // Both cards of an asking are rows, the first one first.
         TowerHouse y = two();
         y.off(0, true);
@@ -240,9 +228,9 @@ final class OffEdgeTest {
         x.pass(60);
         Checks.due(3, x.off(0, false));
         Checks.due(2, x.against(0, 0));
-        Checks.row(Checks.of(0, 0, 1, 3), against(x, 0));
-        Checks.row(Checks.of(0, 0, 2, 3), against(x, 1));
-        Checks.row(Checks.of(0, 1, 0, -1, 0, 180), where(x, 0));
+        Checks.row(Checks.of(0, 0, 1, 3), Facts.against(x, 0));
+        Checks.row(Checks.of(0, 0, 2, 3), Facts.against(x, 1));
+        Checks.row(Checks.of(0, 1, 0, -1, 0, 180), Facts.where(x, 0));
         // Ended from minute 2 on: the row of minute 1 is not against, that of minute 2 is.
         TowerHouse y = two();
         y.off(0, true);
@@ -254,7 +242,7 @@ final class OffEdgeTest {
         y.pass(60);
         Checks.due(2, y.off(0, false));
         Checks.due(1, y.against(0, 0));
-        Checks.row(Checks.of(0, 0, 2, 5), against(y, 0));
+        Checks.row(Checks.of(0, 0, 2, 5), Facts.against(y, 0));
     }
 
     private static void againstReasons() {
@@ -279,8 +267,8 @@ final class OffEdgeTest {
         y.lost(1, 0);
         Checks.due(3, y.off(0, false));
         Checks.due(2, y.against(0, 0));
-        Checks.row(Checks.of(0, 0, 0, 5), against(y, 0));
-        Checks.row(Checks.of(0, 1, 0, 3), against(y, 1));
+        Checks.row(Checks.of(0, 0, 0, 5), Facts.against(y, 0));
+        Checks.row(Checks.of(0, 1, 0, 3), Facts.against(y, 1));
         // A right that came behind it helps, and so does a loss that was taken back.
         TowerHouse z = two();
         z.off(0, true);
@@ -306,10 +294,10 @@ final class OffEdgeTest {
         x.lost(0, 0);
         Checks.due(2, x.off(0, false));
         // The caught one stays, with its row against; the other one goes into the smoke, and is caught a second later.
-        Checks.row(Checks.of(0, 1, 0, 1, 0, 0), where(x, 0));
+        Checks.row(Checks.of(0, 1, 0, 1, 0, 0), Facts.where(x, 0));
         Checks.due(1, x.against(0, 0));
-        Checks.row(Checks.of(0, 0, 0, 3), against(x, 0));
-        Checks.row(Checks.of(0, 1, 0, -1, 0, 1), where(x, 1));
+        Checks.row(Checks.of(0, 0, 0, 3), Facts.against(x, 0));
+        Checks.row(Checks.of(0, 1, 0, -1, 0, 1), Facts.where(x, 1));
         x.pass(1);
         Checks.due(2, x.where(1, 3));
         // A row of a caught one that is not against is none.
@@ -333,7 +321,7 @@ final class OffEdgeTest {
         release(x, true);
         Checks.due(2, x.off(0, false));
         Checks.due(1, x.against(0, 0));
-        Checks.row(Checks.of(0, 0, 0, 3), against(x, 0));
+        Checks.row(Checks.of(0, 0, 0, 3), Facts.against(x, 0));
         Checks.due(0, x.where(0, 0));
         Checks.due(0, x.where(1, 0));
     }
@@ -353,7 +341,7 @@ final class OffEdgeTest {
         release(x, true);
         Checks.due(4, x.ask(0, 0, OUT));
         Checks.due(0, x.ask(0, 0, 0));
-        Checks.row(Checks.of(0, 1, 0, -1, 0, 61), where(x, 0));
+        Checks.row(Checks.of(0, 1, 0, -1, 0, 61), Facts.where(x, 0));
         Checks.due(4, x.ask(0, 0, 0));
         Checks.due(4, x.ask(0, 1, 0));
         Checks.due(0, x.ask(0, 1, 1));
@@ -372,7 +360,7 @@ final class OffEdgeTest {
         release(x, true);
         x.pass(5);
         Checks.due(0, x.both(0, 2, 0, 0));
-        Checks.row(Checks.of(0, 1, 0, -1, 0, 6), where(x, 0));
+        Checks.row(Checks.of(0, 1, 0, -1, 0, 6), Facts.where(x, 0));
         Checks.due(4, x.both(0, 2, 0, 0));
         Checks.due(4, x.both(0, 1, 0, OUT));
         Checks.due(4, x.both(1, 0, 0, OUT));
@@ -414,13 +402,13 @@ final class OffEdgeTest {
 
     private static void wherePersons() {
         TowerHouse x = two();
-        Checks.row(Checks.of(OUT, -1, -1, -1, 0, 0), where(x, 0));
+        Checks.row(Checks.of(OUT, -1, -1, -1, 0, 0), Facts.where(x, 0));
         x.pass(4);
         x.ask(0, 0, 0);
-        Checks.row(Checks.of(0, 1, 0, -1, 0, 4), where(x, 0));
+        Checks.row(Checks.of(0, 1, 0, -1, 0, 4), Facts.where(x, 0));
         x.pass(1);
         x.ask(0, 0, OUT);
-        Checks.row(Checks.of(OUT, -1, -1, -1, 0, 5), where(x, 0));
+        Checks.row(Checks.of(OUT, -1, -1, -1, 0, 5), Facts.where(x, 0));
         int[] noWhat = {-1, 6, LEAST, GREATEST};
         for (int v : noWhat) {
             Checks.argument(() -> x.where(0, v));
@@ -454,7 +442,7 @@ final class OffEdgeTest {
         Houses.matrix(y, "zone 0 needs 1 of 1; act 0 kind 4 rank 0 delay 0; when 0 does 0;");
         y.signal(1, 100);
         y.pass(1);
-        Checks.row(Checks.of(1, -1, -1, -1, 1, 1), where(y, 0));
+        Checks.row(Checks.of(1, -1, -1, -1, 1, 1), Facts.where(y, 0));
         // A refused asking moves nobody.
         Checks.due(4, y.ask(0, 0, 1));
         Checks.due(1, y.where(0, 5));
@@ -521,7 +509,7 @@ final class OffEdgeTest {
         }
         Checks.due(99, x.against(0, 0));
         Checks.argument(() -> x.against(99, 1));
-        Checks.row(Checks.of(0, 0, 0, 3), against(x, 98));
+        Checks.row(Checks.of(0, 0, 0, 3), Facts.against(x, 98));
         x.off(1, true);
         x.pass(60);
         for (int k = 0; k < 3; k++) {
@@ -532,10 +520,10 @@ final class OffEdgeTest {
         for (int k : any) {
             Checks.due(102, x.against(k, 0));
         }
-        Checks.row(Checks.of(1, 1, 1, 3), against(x, 99));
+        Checks.row(Checks.of(1, 1, 1, 3), Facts.against(x, 99));
         Checks.argument(() -> x.against(100, 1));
         Checks.argument(() -> x.against(101, 1));
         Checks.argument(() -> x.against(-1, 1));
-        Checks.row(Checks.of(0, 0, 0, 3), against(x, 0));
+        Checks.row(Checks.of(0, 0, 0, 3), Facts.against(x, 0));
     }
 }

@@ -569,7 +569,7 @@ final class PlanEdgeTest {
     }
 
     private static void allLinesAndDoors() {
-        // 18 rooms of 1 by 1 in a row, each line with six doors of rate 1 at its low end.
+        // 17 rooms of 1 by 2 in a row; each line has six doors of rate 1 at its low end.
         TowerHouse x = new TowerHouse();
         x.line(0, 0, 17, 0);
         x.line(0, 2, 17, 2);
@@ -589,10 +589,10 @@ final class PlanEdgeTest {
         Checks.due(1, x.way(16, -1));
         Checks.due(1, x.way(8, 9));
         Checks.due(120, x.build(0));
-        Checks.row(Checks.of(0, 17, 0, 0, 0, 0), portal(x, 0));
+        Checks.row(Checks.of(0, 17, 0, 0, 0, 0), Facts.portal(x, 0));
         // Line 1 is that above: A is the outside, B the first room.
-        Checks.row(Checks.of(17, 0, 1, 5, 0, 2), portal(x, 11));
-        Checks.row(Checks.of(16, 17, 19, 5, 16, 0), portal(x, 119));
+        Checks.row(Checks.of(17, 0, 1, 5, 0, 2), Facts.portal(x, 11));
+        Checks.row(Checks.of(16, 17, 19, 5, 16, 0), Facts.portal(x, 119));
         Checks.due(1, x.cell(0, 0, 1));
         Checks.due(1, x.cell(16, 0, 1));
         Checks.due(2, x.cell(16, 1, 1));
@@ -605,11 +605,7 @@ final class PlanEdgeTest {
         Checks.due(40, x.cell(16, 0, 2));
         Checks.due(40, x.told(1));
         Checks.due(40, x.inside(0));
-        x.sentence(0, 0, 1, 17, 1);
-        x.sentence(1, 0, 4, 0, 0);
-        x.sentence(2, 0, 0, 0, 0);
-        x.matrix();
-        x.signal(17, 100);
+        Houses.leave(x, 17);
         // To the right through its six doors, of which each lets one through; nobody has another way out.
         x.pass(1);
         Checks.due(34, x.told(1));
@@ -620,14 +616,6 @@ final class PlanEdgeTest {
         x.pass(1);
         Checks.due(0, x.told(1));
         Checks.due(28, x.inside(0));
-    }
-
-    private static long[] portal(TowerHouse x, int portal) {
-        long[] all = new long[6];
-        for (int what = 0; what < 6; what++) {
-            all[what] = x.portal(portal, what);
-        }
-        return all;
     }
 
     private static void noSuchRing() {

@@ -36,19 +36,6 @@ final class ProgramEdgeTest {
         Checks.test("P21 edge: 'Behind a second with which there were 20000 failures or more the program rests for good'", ProgramEdgeTest::rests);
     }
 
-    /** Block 0 of a kind, its inputs wired to three NUMBERS; its safe value is 4711. */
-    private static TowerHouse wired(int kind, int p, int q) {
-        TowerHouse x = Houses.four();
-        x.block(kind);
-        x.numbers(0, p, q);
-        for (int k = 0; k < 3; k++) {
-            x.block(1);
-            x.wire(0, k, k + 1);
-        }
-        x.safe(0, SAFE);
-        return x;
-    }
-
     /** The output of block 0 with these inputs, a second later. */
     private static int next(TowerHouse x, int a, int b) {
         x.numbers(1, a, 0);
@@ -178,13 +165,13 @@ final class ProgramEdgeTest {
 
     private static void hands() {
         // It fails each second, and its state goes on, in hand as well.
-        TowerHouse x = wired(5, 0, 0);
+        TowerHouse x = ProgramTest.wired(5, 0, 0);
         x.hand(0, true, 8);
         Checks.due(8, next(x, 1, 0));
         Checks.due(1, x.failed(1));
         Checks.due(8, next(x, 1, 1));
         Checks.due(1, x.failed(1));
-        TowerHouse y = wired(18, 0, 0);
+        TowerHouse y = ProgramTest.wired(18, 0, 0);
         y.hand(0, true, -5);
         Checks.due(-5, next(y, 1, 0));
         state(y, 1, 1);
@@ -194,7 +181,7 @@ final class ProgramEdgeTest {
         y.hand(0, false, 0);
         Checks.due(2, next(y, 3, 0));
         // Those that are wired to it have the hand's value in the same second.
-        TowerHouse z = wired(2, 0, 0);
+        TowerHouse z = ProgramTest.wired(2, 0, 0);
         z.hand(1, true, 100);
         Checks.due(107, next(z, 1, 7));
         // In a ring it does nothing.
@@ -307,13 +294,13 @@ final class ProgramEdgeTest {
         int[] named = {0, 0, 2, 2, 2, 2, 2, 2, 2, 2, 2, 2, 2, 1, 3, 1, 0, 1, 2, 2, 0, 1, 1, 2, 2, 1};
         for (int kind = 0; kind < 26; kind++) {
             for (int input = 0; input < 3; input++) {
-                TowerHouse x = wired(kind, 1, 1);
+                TowerHouse x = ProgramTest.wired(kind, 1, 1);
                 x.wire(0, input, 0);
                 Checks.due(input < named[kind] ? 3 : 4, x.order());
             }
         }
         // Nothing is reckoned: outputs, states, failures stay, also of those that come before the ring.
-        TowerHouse y = wired(24, 0, 0);
+        TowerHouse y = ProgramTest.wired(24, 0, 0);
         Checks.due(5, next(y, 5, 0));
         y.block(5);
         Checks.due(5, y.order());
@@ -328,7 +315,7 @@ final class ProgramEdgeTest {
         Checks.due(11, next(y, 6, 0));
         Checks.due(1, y.failed(0));
         // A DELAY in a ring of others takes nothing as long as there is one.
-        TowerHouse z = wired(2, 0, 0);
+        TowerHouse z = ProgramTest.wired(2, 0, 0);
         z.block(16);
         z.wire(4, 0, 1);
         z.wire(0, 0, 0);
@@ -367,7 +354,7 @@ final class ProgramEdgeTest {
     }
 
     private static void plain(int kind, int a, int b, int due) {
-        TowerHouse x = wired(kind, 0, 0);
+        TowerHouse x = ProgramTest.wired(kind, 0, 0);
         Checks.due(due, next(x, a, b));
         boolean isZero = due == SAFE;
         Checks.due(isZero ? 1 : 0, x.failed(1));
@@ -420,7 +407,7 @@ final class ProgramEdgeTest {
                 plain(12, a, b, a == 0 && b == 0 ? 0 : 1);
                 plain(13, a, b, a == 0 ? 1 : 0);
             }
-            TowerHouse x = wired(14, 0, 0);
+            TowerHouse x = ProgramTest.wired(14, 0, 0);
             x.numbers(3, 77, 0);
             Checks.due(a != 0 ? 66 : 77, next(x, a, 66));
         }
@@ -429,11 +416,11 @@ final class ProgramEdgeTest {
     private static void bad() {
         int[] none = {-1, 10, MIN, MAX};
         for (int v : none) {
-            TowerHouse x = wired(0, v, 0);
+            TowerHouse x = ProgramTest.wired(0, v, 0);
             Checks.due(SAFE, next(x, 0, 0));
             Checks.row(Checks.of(1, 0, 1, 0), Checks.of(x.failed(0), x.failed(1), x.failed(2), x.failed(3)));
         }
-        TowerHouse x = wired(0, 4, 0);
+        TowerHouse x = ProgramTest.wired(0, 4, 0);
         x.point(4, MIN);
         x.point(9, MAX);
         Checks.due(MIN, next(x, 0, 0));
@@ -443,7 +430,7 @@ final class ProgramEdgeTest {
         x.fire(0, 0);
         Checks.due(1, next(x, 0, 0));
         Checks.due(0, x.failed(0));
-        TowerHouse y = wired(15, 0, 0);
+        TowerHouse y = ProgramTest.wired(15, 0, 0);
         for (int k = 0; k < 8; k++) {
             y.row(0, k, 100 + k);
             Checks.due(100 + k, next(y, k, 0));
@@ -461,7 +448,7 @@ final class ProgramEdgeTest {
         int[] named = {0, 0, 2, 2, 2, 2, 2, 2, 2, 2, 2, 2, 2, 1, 3, 1, 1, 1, 2, 2, 0, 1, 1, 2, 2, 1};
         for (int kind = 0; kind < 26; kind++) {
             for (int input = 0; input < 3; input++) {
-                TowerHouse x = wired(kind, 1, 3);
+                TowerHouse x = ProgramTest.wired(kind, 1, 3);
                 int b = kind == 5 || kind == 6 ? 1 : 0;
                 next(x, 1, b);
                 long first = x.out(0, 1);
@@ -478,7 +465,7 @@ final class ProgramEdgeTest {
             }
         }
         // All three of a CHOICE are looked at first, also that which would not be chosen.
-        TowerHouse x = wired(14, 0, 0);
+        TowerHouse x = ProgramTest.wired(14, 0, 0);
         x.wire(0, 2, -1);
         Checks.due(SAFE, next(x, 1, 5));
         x.wire(0, 2, 3);
@@ -486,7 +473,7 @@ final class ProgramEdgeTest {
         Checks.due(SAFE, next(x, 0, 5));
         Checks.due(2, x.failed(3));
         // NOTHING is found before ZERO and BAD.
-        TowerHouse y = wired(5, 0, 0);
+        TowerHouse y = ProgramTest.wired(5, 0, 0);
         y.wire(0, 0, -1);
         next(y, 0, 0);
         Checks.due(1, y.failed(3));
@@ -494,7 +481,7 @@ final class ProgramEdgeTest {
     }
 
     private static void ramps() {
-        TowerHouse x = wired(17, 5, 0);
+        TowerHouse x = ProgramTest.wired(17, 5, 0);
         int[] aims = {5, 11, 11, 6, 6, 1, -10, -10, -10};
         int[] outs = {5, 10, 11, 6, 6, 1, -4, -9, -10};
         for (int k = 0; k < aims.length; k++) {
@@ -529,7 +516,7 @@ final class ProgramEdgeTest {
     }
 
     private static void counts() {
-        TowerHouse x = wired(18, 0, 0);
+        TowerHouse x = ProgramTest.wired(18, 0, 0);
         int[][] steps = {{0, 0, 0}, {1, 0, 1}, {1, 0, 1}, {-1, 0, 1}, {0, 0, 1}, {MIN, 0, 2}, {0, 0, 2}, {0, MIN, 0}, {0, 0, 0},
             {5, 1, 0}, {5, 0, 0}, {0, 0, 0}, {5, 0, 1}};
         for (int[] s : steps) {
@@ -545,7 +532,7 @@ final class ProgramEdgeTest {
     }
 
     private static void latches() {
-        TowerHouse x = wired(19, 0, 0);
+        TowerHouse x = ProgramTest.wired(19, 0, 0);
         int[][] steps = {{0, 0, 0}, {0, 5, 0}, {-3, 0, 1}, {0, 0, 1}, {MIN, MAX, 1}, {0, MIN, 0}, {0, 0, 0}, {1, 1, 1}, {0, 0, 1}};
         for (int[] s : steps) {
             Checks.due(s[2], next(x, s[0], s[1]));
@@ -559,7 +546,7 @@ final class ProgramEdgeTest {
     }
 
     private static void clock(int p, int q, int at59, int at60, int at119, int at120) {
-        TowerHouse x = wired(20, p, q);
+        TowerHouse x = ProgramTest.wired(20, p, q);
         int[] more = {59, 1, 59, 1};
         int[] due = {at59, at60, at119, at120};
         for (int k = 0; k < 4; k++) {
@@ -587,7 +574,7 @@ final class ProgramEdgeTest {
     }
 
     private static void pulses() {
-        TowerHouse x = wired(21, 2, 0);
+        TowerHouse x = ProgramTest.wired(21, 2, 0);
         int[][] steps = {{0, 0, 0}, {1, 1, 1}, {1, 1, 0}, {1, 0, 0}, {1, 0, 0}, {0, 0, 0}, {-1, 1, 1}, {0, 1, 0}, {0, 0, 0}};
         for (int[] s : steps) {
             Checks.due(s[1], next(x, s[0], 0));
@@ -601,12 +588,12 @@ final class ProgramEdgeTest {
         // With p of 1, 0 and below 0.
         int[] ps = {1, 0, -1, MIN};
         for (int p : ps) {
-            TowerHouse y = wired(21, p, 0);
+            TowerHouse y = ProgramTest.wired(21, p, 0);
             Checks.due(p == 1 ? 1 : 0, next(y, 9, 0));
             state(y, p == 1 ? 0 : p, 9);
             Checks.due(0, next(y, 9, 0));
         }
-        TowerHouse z = wired(21, MAX, 0);
+        TowerHouse z = ProgramTest.wired(21, MAX, 0);
         Checks.due(1, next(z, 9, 0));
         state(z, MAX - 1, 9);
     }
@@ -615,9 +602,9 @@ final class ProgramEdgeTest {
         int[][] limits = {{-1, 0, 9, 0}, {0, 0, 9, 0}, {1, 0, 9, 1}, {8, 0, 9, 8}, {9, 0, 9, 9}, {10, 0, 9, 9}, {5, 5, 5, 5},
             {4, 9, 0, 9}, {9, 9, 0, 0}, {10, 9, 0, 0}, {MIN, MIN, MAX, MIN}, {MAX, MIN, MAX, MAX}, {MIN, MAX, MIN, MAX}};
         for (int[] l : limits) {
-            Checks.due(l[3], next(wired(22, l[1], l[2]), l[0], 0));
+            Checks.due(l[3], next(ProgramTest.wired(22, l[1], l[2]), l[0], 0));
         }
-        TowerHouse x = wired(23, 0, 0);
+        TowerHouse x = ProgramTest.wired(23, 0, 0);
         Checks.due(0, next(x, 7, 1));
         Checks.due(7, next(x, 7, 0));
         Checks.due(7, next(x, 8, MIN));
@@ -626,7 +613,7 @@ final class ProgramEdgeTest {
         x.wire(0, 0, 1);
         Checks.due(SAFE, next(x, 8, 1));
         Checks.due(8, next(x, 8, 0));
-        TowerHouse y = wired(24, 0, 0);
+        TowerHouse y = ProgramTest.wired(24, 0, 0);
         int[][] sums = {{MAX, 0, MAX}, {1, 0, MIN}, {-1, 0, MAX}, {5, 1, 0}, {5, 0, 5}, {0, MIN, 0}, {MIN, 0, MIN}, {MIN, 0, 0}};
         for (int[] s : sums) {
             Checks.due(s[2], next(y, s[0], s[1]));
@@ -635,7 +622,7 @@ final class ProgramEdgeTest {
     }
 
     private static void sinces() {
-        TowerHouse x = wired(25, 3, 0);
+        TowerHouse x = ProgramTest.wired(25, 3, 0);
         int[] as = {1, -1, MIN, 1, 1, 0, 5};
         int[] outs = {1, 2, 3, 3, 3, 0, 1};
         for (int k = 0; k < as.length; k++) {
@@ -662,7 +649,7 @@ final class ProgramEdgeTest {
 
     private static void delays() {
         // Its output is what its input was a second before; those wired to it have it in the same second.
-        TowerHouse x = wired(16, 0, 0);
+        TowerHouse x = ProgramTest.wired(16, 0, 0);
         x.block(2);
         x.wire(4, 0, 0);
         x.wire(4, 1, 1);
@@ -714,7 +701,7 @@ final class ProgramEdgeTest {
     }
 
     private static void failures() {
-        TowerHouse x = wired(5, 0, 0);
+        TowerHouse x = ProgramTest.wired(5, 0, 0);
         int[] noKind = {-1, 4, MIN, MAX};
         for (int v : noKind) {
             Checks.argument(() -> x.failed(v));

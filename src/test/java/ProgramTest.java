@@ -276,8 +276,8 @@ final class ProgramTest {
         return all;
     }
 
-    /** Block 0 of a kind, its inputs wired to three NUMBERS. */
-    private static TowerHouse wired(int kind, int p, int q) {
+    /** Block 0 of a kind, its inputs wired to three NUMBERS; its safe value is 4711. */
+    static TowerHouse wired(int kind, int p, int q) {
         TowerHouse x = Houses.four();
         x.block(kind);
         x.numbers(0, p, q);

@@ -29,23 +29,6 @@ final class SmokeEdgeTest {
         Checks.test("P28 edge: told, wrong numbers, at first", SmokeEdgeTest::toldNumbers);
     }
 
-    private static long[] where(TowerHouse x, int person) {
-        long[] all = new long[6];
-        for (int what = 0; what < 6; what++) {
-            all[what] = x.where(person, what);
-        }
-        return all;
-    }
-
-    /** Persons leave from the next second on: by a switch, as many rooms as there are. */
-    private static void leave(TowerHouse x, int rooms) {
-        x.sentence(0, 0, 1, rooms, 1);
-        x.sentence(1, 0, 4, 0, 0);
-        x.sentence(2, 0, 0, 0, 0);
-        x.matrix();
-        x.signal(rooms, 100);
-    }
-
     /** So many persons of these paces come in by portal 0 into room 0, with a right to zone 0. */
     private static void comeIn(TowerHouse x, int portal, int... paces) {
         x.right(0, 0, 0, 1439, 0);
@@ -322,12 +305,12 @@ final class SmokeEdgeTest {
         Checks.due(2, x.told(1));
         Checks.due(0, x.ask(1, 0, 1));
         x.pass(1);
-        Checks.row(Checks.of(0, 2, 2, 1, 0, 0), where(x, 0));
-        Checks.row(Checks.of(1, -1, -1, -1, 0, 0), where(x, 1));
+        Checks.row(Checks.of(0, 2, 2, 1, 0, 0), Facts.where(x, 0));
+        Checks.row(Checks.of(1, -1, -1, -1, 0, 0), Facts.where(x, 1));
         // It stays so, and does not leave; the second in which it was caught stays, too.
-        leave(x, 1);
+        Houses.leave(x, 1);
         x.pass(30);
-        Checks.row(Checks.of(0, 2, 2, 1, 0, 0), where(x, 0));
+        Checks.row(Checks.of(0, 2, 2, 1, 0, 0), Facts.where(x, 0));
         // Smoke that comes in a second catches in it.
         TowerHouse y = Houses.one(3, 1);
         comeIn(y, 0, 5);
@@ -342,7 +325,7 @@ final class SmokeEdgeTest {
         // Came in in second 2 with paces 1 to 5: with persons leaving since second 1 they go in 3 to 7.
         TowerHouse x = Houses.one(3, 1);
         x.right(0, 0, 0, 1439, 0);
-        leave(x, 1);
+        Houses.leave(x, 1);
         x.pass(2);
         for (int k = 0; k < 5; k++) {
             x.person(0, 1 + k);
@@ -354,7 +337,7 @@ final class SmokeEdgeTest {
             for (int k = 0; k < 5; k++) {
                 Checks.due(k + 3 <= second ? 1 : 0, x.where(k, 0));
             }
-            Checks.row(Checks.of(1, -1, -1, -1, 1, second), where(x, second - 3));
+            Checks.row(Checks.of(1, -1, -1, -1, 1, second), Facts.where(x, second - 3));
         }
         // A step each PACE seconds: from the far end of a row of four.
         TowerHouse y = new TowerHouse();
@@ -371,10 +354,10 @@ final class SmokeEdgeTest {
         y.card(0, 9);
         Checks.due(0, y.ask(0, 0, 0));
         y.pass(30);
-        leave(y, 1);
+        Houses.leave(y, 1);
         y.pass(1);
         // It was in its cell long enough: it goes out at once, to the left.
-        Checks.row(Checks.of(1, -1, -1, -1, 1, 31), where(y, 0));
+        Checks.row(Checks.of(1, -1, -1, -1, 1, 31), Facts.where(y, 0));
     }
 
     /** A row of five cells from (2, 2) to (6, 2) with a way out on the left, and a room to the right of it. */
@@ -405,19 +388,19 @@ final class SmokeEdgeTest {
         x.off(1, true);
         Checks.due(0, x.ask(0, 1, 0));
         x.off(1, false);
-        Checks.row(Checks.of(0, 6, 2, -1, 0, 0), where(x, 0));
+        Checks.row(Checks.of(0, 6, 2, -1, 0, 0), Facts.where(x, 0));
         Checks.due(5, x.cell(6, 2, 1));
-        leave(x, 2);
+        Houses.leave(x, 2);
         // Person 0 makes a step to the left in each second, from cell to cell.
         for (int k = 1; k < 5; k++) {
             x.pass(1);
-            Checks.row(Checks.of(0, 6 - k, 2, -1, k, k), where(x, 0));
+            Checks.row(Checks.of(0, 6 - k, 2, -1, k, k), Facts.where(x, 0));
         }
         // 1 was out in the first second, 2 in the second one: of alike cells by their own numbers.
         Checks.due(1, x.where(1, 5));
         Checks.due(2, x.where(2, 5));
         x.pass(1);
-        Checks.row(Checks.of(2, -1, -1, -1, 5, 5), where(x, 0));
+        Checks.row(Checks.of(2, -1, -1, -1, 5, 5), Facts.where(x, 0));
         doorBetween();
         // Person 0 stays in the outside; 1, 2 and 3 are at 5, 3 and 1, and each goes once in each second.
         TowerHouse y = corridor(5);
@@ -425,7 +408,7 @@ final class SmokeEdgeTest {
             y.person(0, 1);
             y.card(k, 9);
         }
-        leave(y, 2);
+        Houses.leave(y, 2);
         for (int k = 1; k < 4; k++) {
             y.off(1, true);
             Checks.due(0, y.ask(k, 1, 0));
@@ -433,30 +416,30 @@ final class SmokeEdgeTest {
         }
         y.pass(1);
         for (int k = 1; k < 4; k++) {
-            Checks.row(Checks.of(0, 5, 2, -1, 1, 1), where(y, k));
+            Checks.row(Checks.of(0, 5, 2, -1, 1, 1), Facts.where(y, k));
         }
-        Checks.row(Checks.of(2, -1, -1, -1, 0, 0), where(y, 0));
+        Checks.row(Checks.of(2, -1, -1, -1, 0, 0), Facts.where(y, 0));
         y.off(1, true);
         y.ask(1, 1, 0);
         y.off(1, false);
         y.pass(1);
-        Checks.row(Checks.of(0, 5, 2, -1, 2, 2), where(y, 1));
+        Checks.row(Checks.of(0, 5, 2, -1, 2, 2), Facts.where(y, 1));
         y.off(1, true);
         y.ask(1, 1, 0);
         y.ask(2, 1, 0);
         y.off(1, false);
         y.pass(1);
-        Checks.row(Checks.of(0, 5, 2, -1, 3, 3), where(y, 1));
-        Checks.row(Checks.of(0, 5, 2, -1, 3, 3), where(y, 2));
-        Checks.row(Checks.of(0, 3, 2, -1, 3, 3), where(y, 3));
+        Checks.row(Checks.of(0, 5, 2, -1, 3, 3), Facts.where(y, 1));
+        Checks.row(Checks.of(0, 5, 2, -1, 3, 3), Facts.where(y, 2));
+        Checks.row(Checks.of(0, 3, 2, -1, 3, 3), Facts.where(y, 3));
         y.off(1, true);
         y.ask(1, 1, 0);
         y.off(1, false);
         // Now they are at 5, 4 and 2.
         y.pass(1);
-        Checks.row(Checks.of(0, 5, 2, -1, 4, 4), where(y, 1));
-        Checks.row(Checks.of(0, 4, 2, -1, 4, 4), where(y, 2));
-        Checks.row(Checks.of(0, 2, 2, -1, 4, 4), where(y, 3));
+        Checks.row(Checks.of(0, 5, 2, -1, 4, 4), Facts.where(y, 1));
+        Checks.row(Checks.of(0, 4, 2, -1, 4, 4), Facts.where(y, 2));
+        Checks.row(Checks.of(0, 2, 2, -1, 4, 4), Facts.where(y, 3));
         Checks.due(0, y.where(0, 4));
     }
 
@@ -481,16 +464,16 @@ final class SmokeEdgeTest {
             Checks.due(0, x.ask(k, 2 - k, 1));
         }
         x.off(2, false);
-        leave(x, 3);
+        Houses.leave(x, 3);
         Checks.row(Checks.of(5, 4, 3), Checks.of(x.cell(5, 3, 1), x.cell(4, 3, 1), x.cell(4, 2, 1)));
         x.pass(1);
         x.off(1, false);
-        Checks.row(Checks.of(1, 4, 3, -1, 1, 1), where(x, 0));
-        Checks.row(Checks.of(1, 4, 2, -1, 0, 1), where(x, 1));
+        Checks.row(Checks.of(1, 4, 3, -1, 1, 1), Facts.where(x, 0));
+        Checks.row(Checks.of(1, 4, 2, -1, 0, 1), Facts.where(x, 1));
         // Person 1 goes through the door, so person 0, who would go through it, too, takes the way below.
         x.pass(1);
-        Checks.row(Checks.of(0, 3, 2, -1, 1, 2), where(x, 1));
-        Checks.row(Checks.of(1, 4, 2, -1, 2, 2), where(x, 0));
+        Checks.row(Checks.of(0, 3, 2, -1, 1, 2), Facts.where(x, 1));
+        Checks.row(Checks.of(1, 4, 2, -1, 2, 2), Facts.where(x, 0));
     }
 
     private static void withoutNumber() {
@@ -509,11 +492,11 @@ final class SmokeEdgeTest {
         x.off(0, true);
         x.ask(0, 0, 0);
         x.off(0, false);
-        Checks.row(Checks.of(0, 3, 2, -1, 0, 0), where(x, 0));
+        Checks.row(Checks.of(0, 3, 2, -1, 0, 0), Facts.where(x, 0));
         Checks.due(-1, x.cell(3, 2, 1));
-        leave(x, 2);
+        Houses.leave(x, 2);
         x.pass(60);
-        Checks.row(Checks.of(0, 3, 2, -1, 0, 0), where(x, 0));
+        Checks.row(Checks.of(0, 3, 2, -1, 0, 0), Facts.where(x, 0));
         Checks.due(1, x.told(1));
     }
 
@@ -532,7 +515,7 @@ final class SmokeEdgeTest {
             for (int k = 0; k < smoky; k++) {
                 x.fire(outs[k][0], outs[k][1]);
             }
-            leave(x, 1);
+            Houses.leave(x, 1);
             x.pass(1);
             // Each door lets one through in a second: two persons take the first two ways that are left.
             Checks.due(smoky < 4 ? 1 : 0, x.where(0, 0));
@@ -562,20 +545,20 @@ final class SmokeEdgeTest {
         x.off(1, true);
         x.ask(0, 1, 0);
         x.off(1, false);
-        leave(x, 2);
+        Houses.leave(x, 2);
         x.fire(4, 2);
         x.pass(1);
-        Checks.row(Checks.of(0, 5, 2, -1, 1, 1), where(x, 0));
+        Checks.row(Checks.of(0, 5, 2, -1, 1, 1), Facts.where(x, 0));
         x.pass(5);
         // There is no other cell with a lesser number.
-        Checks.row(Checks.of(0, 5, 2, -1, 1, 1), where(x, 0));
+        Checks.row(Checks.of(0, 5, 2, -1, 1, 1), Facts.where(x, 0));
         x.pass(4);
         Checks.due(10, x.where(0, 3));
         // Smoke in the outside's cell is in the way, too; beyond the cells there is none.
         TowerHouse y = corridor(5);
         comeIn(y, 0, 1);
         y.fire(1, 2);
-        leave(y, 2);
+        Houses.leave(y, 2);
         y.pass(9);
         Checks.due(0, y.where(0, 4));
         TowerHouse z = new TowerHouse();
@@ -588,9 +571,9 @@ final class SmokeEdgeTest {
         z.build(0);
         comeIn(z, 0, 1);
         z.fire(0, 1);
-        leave(z, 1);
+        Houses.leave(z, 1);
         z.pass(1);
-        Checks.row(Checks.of(1, -1, -1, -1, 1, 1), where(z, 0));
+        Checks.row(Checks.of(1, -1, -1, -1, 1, 1), Facts.where(z, 0));
     }
 
     private static void rates() {
@@ -601,7 +584,7 @@ final class SmokeEdgeTest {
                 x.card(k, 9);
                 Checks.due(0, x.ask(k, 0, 0));
             }
-            leave(x, 2);
+            Houses.leave(x, 2);
             for (int second = 1; second < 4; second++) {
                 x.pass(1);
                 Checks.due(Math.max(0, 12 - rate * second), x.told(1));
@@ -623,7 +606,7 @@ final class SmokeEdgeTest {
             y.card(k, 9);
             Checks.due(0, y.ask(k, 1, 0));
         }
-        leave(y, 1);
+        Houses.leave(y, 1);
         for (int second = 1; second < 5; second++) {
             y.pass(1);
             Checks.due(4 - second, y.told(1));
@@ -631,7 +614,7 @@ final class SmokeEdgeTest {
         // Those who come in by cards are not counted: in one second one goes in and another one out.
         TowerHouse z = corridor(1);
         comeIn(z, 0, 1, 1);
-        leave(z, 2);
+        Houses.leave(z, 2);
         z.pass(1);
         Checks.due(2, z.where(0, 0));
         Checks.due(0, z.ask(0, 0, 0));
@@ -660,7 +643,7 @@ final class SmokeEdgeTest {
             x.card(k, 9);
             Checks.due(0, x.ask(k, 0, 0));
         }
-        leave(x, 1);
+        Houses.leave(x, 1);
         x.pass(1);
         Checks.due(3, x.told(1));
         x.pass(1);
@@ -733,7 +716,7 @@ final class SmokeEdgeTest {
         TowerHouse z = corridor(5);
         comeIn(z, 0, 1);
         z.block(0);
-        leave(z, 2);
+        Houses.leave(z, 2);
         z.pass(1);
         Checks.due(2, z.where(0, 0));
         Checks.due(1, z.pointAt(0));

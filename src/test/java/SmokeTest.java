@@ -150,24 +150,7 @@ final class SmokeTest {
         y.pass(3);
         Checks.due(0, y.where(0, 0));
         y.pass(1);
-        Checks.row(Checks.of(1, -1, -1, -1, 1, 9), where(y, 0));
-    }
-
-    private static long[] where(TowerHouse x, int person) {
-        long[] all = new long[6];
-        for (int what = 0; what < 6; what++) {
-            all[what] = x.where(person, what);
-        }
-        return all;
-    }
-
-    /** A house in which persons leave from second 1 on. */
-    private static void leave(TowerHouse x, int rooms) {
-        x.sentence(0, 0, 1, rooms, 1);
-        x.sentence(1, 0, 4, 0, 0);
-        x.sentence(2, 0, 0, 0, 0);
-        x.matrix();
-        x.signal(rooms, 100);
+        Checks.row(Checks.of(1, -1, -1, -1, 1, 9), Facts.where(y, 0));
     }
 
     private static void leaving() {
@@ -178,7 +161,7 @@ final class SmokeTest {
             x.card(k, 9);
             Checks.due(0, x.ask(k, 0, 0));
         }
-        leave(x, 1);
+        Houses.leave(x, 1);
         x.pass(1);
         Checks.due(1, x.where(0, 0));
         Checks.due(0, x.where(1, 0));
@@ -225,7 +208,7 @@ final class SmokeTest {
             Checks.due(0, x.ask(k, 1, 0));
         }
         Checks.due(4, x.cell(3, 2, 2));
-        leave(x, 2);
+        Houses.leave(x, 2);
         x.pass(1);
         // Of pace 1 persons 0 and 2 go by the first door and the second one at this place.
         Checks.due(2, x.where(0, 0));
@@ -246,9 +229,9 @@ final class SmokeTest {
         y.card(0, 9);
         y.ask(0, 0, 0);
         y.pass(10);
-        leave(y, 1);
+        Houses.leave(y, 1);
         y.pass(1);
-        Checks.row(Checks.of(1, -1, -1, -1, 1, 11), where(y, 0));
+        Checks.row(Checks.of(1, -1, -1, -1, 1, 11), Facts.where(y, 0));
     }
 
     private static void told() {
@@ -278,7 +261,7 @@ final class SmokeTest {
         x.pass(1);
         Checks.row(Checks.of(6, 0, 2, 2, 1, 0, 1, 0, 4), all(x));
         TowerHouse y = Houses.one(2, 2);
-        leave(y, 1);
+        Houses.leave(y, 1);
         y.pass(1);
         Checks.due(1, y.told(7));
         Checks.argument(() -> x.told(9));
