@@ -687,6 +687,19 @@ final class SmokeEdgeTest {
         x.signal(0, 100);
         x.pass(1);
         Checks.due(0, x.told(2));
+        // Smoke that spreads in second 10 is in five cells then: the detector has 50 in it, and the act is done in it.
+        TowerHouse w = Houses.one(5, 5);
+        w.sentence(0, 0, 1, 0, 1);
+        w.sentence(1, 0, 5, 0, 0);
+        w.sentence(2, 0, 0, 0, 0);
+        w.matrix();
+        w.fire(4, 4);
+        w.pass(9);
+        Checks.due(0, w.act(0, 0));
+        w.pass(1);
+        Checks.row(Checks.of(10, 0, 1), Facts.event(w, 0));
+        Checks.due(1, w.pointAt(1));
+        Checks.due(5, w.pointAt(2));
         // A switch that a block drives: its output of the second before.
         TowerHouse y = Houses.one(4, 1);
         y.sentence(0, 0, 1, 1, 1);
