@@ -27,6 +27,7 @@ final class AccessEdgeTest {
         Checks.test("P12 edge: refused 5, 'from <= it < to', 'over midnight', 'never, if both are alike'", AccessEdgeTest::spans);
         Checks.test("P12 edge: refused 5, 'the room is not the outside'", AccessEdgeTest::outsideNeedsNone);
         Checks.test("P12 edge: refused 6, 'another portal of an AIRLOCK with it is OPEN'", AccessEdgeTest::openAirlock);
+        Checks.test("P12 edge: refused 6, as many portals as a row of bits has", AccessEdgeTest::lastOfSixtyFour);
         Checks.test("P12 edge: refused 'by the first of these that is so'", AccessEdgeTest::firstReason);
         Checks.test("P12 edge: ask, 'also if it is none of the portal's rooms'", AccessEdgeTest::askArguments);
         Checks.test("P12 edge: ask, 'in the least cell (by x, then y) of it that is beside the portal's part'", AccessEdgeTest::leastCell);
@@ -495,6 +496,29 @@ final class AccessEdgeTest {
         Checks.due(6, x.ask(0, 5, 3));
         x.stands(0, false);
         Checks.due(0, x.ask(0, 5, 3));
+    }
+
+    private static void lastOfSixtyFour() {
+        // Lines of five pieces: twelve doors over all of one, and one over four pieces, are 64 portals.
+        TowerHouse x = PermitTest.comb(new TowerHouse());
+        for (int k = 0; k < 12; k++) {
+            x.door(k / 6, 0, 10, 1);
+        }
+        x.door(2, 0, 8, 1);
+        x.find();
+        Checks.due(64, x.build(0));
+        x.person(0, 1);
+        x.card(0, 9);
+        x.right(0, 0, 0, 1439, 0);
+        x.off(63, true);
+        int room = x.portal(63, 0);
+        Checks.due(0, x.ask(0, 63, room));
+        Checks.due(false, x.airlock(63, 0, true));
+        Checks.due(0, x.ask(0, 63, room));
+        x.stands(0, true);
+        Checks.due(6, x.ask(0, 63, room));
+        Checks.due(true, x.airlock(0, 63, false));
+        Checks.due(0, x.ask(0, 63, room));
     }
 
     private static void firstReason() {

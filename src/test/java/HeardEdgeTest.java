@@ -276,6 +276,10 @@ final class HeardEdgeTest {
         none.skip(13);
         none.saySo(204, 0, 1);
         heard(none, 0, 0, 1, 0, 0);
+        Row late = new Row();
+        late.skip(1013);
+        late.saySo(204, 0, 1);
+        heard(late, 0, 0, 1, 0, 0);
     }
 
     private static void anyAnswer() {

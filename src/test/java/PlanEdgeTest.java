@@ -30,6 +30,7 @@ final class PlanEdgeTest {
         Checks.test("P3 edge: 'Without one there is no space, and no outside either'", PlanEdgeTest::noFinding);
         Checks.test("P3 edge: sides, '0 for a ring that it has not', 'also if ring is below 0'", PlanEdgeTest::noSuchRing);
         Checks.test("P3 edge: 'Of the latest finding': nothing of an earlier one", PlanEdgeTest::latestFinding);
+        Checks.test("P3 edge: 'Of the latest finding': fewer rings than before", PlanEdgeTest::fewerRings);
         Checks.test("P2 edge: 20 lines, of 6 doors each, in all that looks at them", PlanEdgeTest::allLinesAndDoors);
     }
 
@@ -566,6 +567,29 @@ final class PlanEdgeTest {
         Checks.due(1, x.find());
         Checks.due(-1, x.at(0, 0));
         Checks.due(0, x.at(5, 5));
+    }
+
+    private static void fewerRings() {
+        // Two lines stand free inside, two outside; then all of them hang on the square, and no ring but two is left.
+        TowerHouse x = new TowerHouse();
+        PlanTest.square(x, 4, 4, 8);
+        x.line(6, 6, 6, 7);
+        x.line(8, 6, 8, 7);
+        x.line(14, 6, 15, 6);
+        x.line(14, 8, 15, 8);
+        x.find();
+        Checks.due(3, x.size(0, 2));
+        Checks.due(4 + 2 + 2, x.count(3));
+        for (int line = 4; line < 8; line++) {
+            Checks.due(true, x.move(line, line < 6 ? 0 : -2, line < 6 ? -2 : 0));
+        }
+        x.find();
+        Checks.due(1, x.size(0, 2));
+        Checks.due(0, x.sides(0, 1));
+        Checks.due(0, x.sides(0, 2));
+        Checks.argument(() -> x.side(0, 1, 0, 0));
+        Checks.due(8 + 4, x.sides(0, 0));
+        Checks.due(8 + 4, x.count(3));
     }
 
     private static void allLinesAndDoors() {
