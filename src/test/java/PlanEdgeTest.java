@@ -580,9 +580,13 @@ final class PlanEdgeTest {
         x.find();
         Checks.due(3, x.size(0, 2));
         Checks.due(4 + 2 + 2, x.count(3));
-        for (int line = 4; line < 8; line++) {
-            Checks.due(true, x.move(line, line < 6 ? 0 : -2, line < 6 ? -2 : 0));
-        }
+        x.move(4, 0, -2);
+        x.move(5, 0, -2);
+        x.find();
+        Checks.due(1, x.size(0, 2));
+        Checks.due(6 + 2 + 2, x.count(3));
+        x.move(6, -2, 0);
+        x.move(7, -2, 0);
         x.find();
         Checks.due(1, x.size(0, 2));
         Checks.due(0, x.sides(0, 1));
