@@ -570,30 +570,34 @@ final class PlanEdgeTest {
     }
 
     private static void fewerRings() {
-        // Two lines stand free inside, two outside; then all of them hang on the square, and no ring but two is left.
+        // Two lines stand free inside a square, then hang on it: its other rings are gone.
         TowerHouse x = new TowerHouse();
         PlanTest.square(x, 4, 4, 8);
         x.line(6, 6, 6, 7);
         x.line(8, 6, 8, 7);
-        x.line(14, 6, 15, 6);
-        x.line(14, 8, 15, 8);
         x.find();
         Checks.due(3, x.size(0, 2));
-        Checks.due(4 + 2 + 2, x.count(3));
         x.move(4, 0, -2);
         x.move(5, 0, -2);
-        x.find();
-        Checks.due(1, x.size(0, 2));
-        Checks.due(6 + 2 + 2, x.count(3));
-        x.move(6, -2, 0);
-        x.move(7, -2, 0);
         x.find();
         Checks.due(1, x.size(0, 2));
         Checks.due(0, x.sides(0, 1));
         Checks.due(0, x.sides(0, 2));
         Checks.argument(() -> x.side(0, 1, 0, 0));
-        Checks.due(8 + 4, x.sides(0, 0));
-        Checks.due(8 + 4, x.count(3));
+        Checks.due(6 + 4, x.sides(0, 0));
+        Checks.due(6, x.count(3));
+        // Two lines in the outside likewise.
+        TowerHouse y = new TowerHouse();
+        PlanTest.square(y, 4, 4, 8);
+        y.line(14, 6, 15, 6);
+        y.line(14, 8, 15, 8);
+        y.find();
+        Checks.due(4 + 2 + 2, y.count(3));
+        y.move(4, -2, 0);
+        y.move(5, -2, 0);
+        y.find();
+        Checks.due(6 + 4, y.count(3));
+        Checks.due(6, y.sides(0, 0));
     }
 
     private static void allLinesAndDoors() {
