@@ -2161,6 +2161,8 @@ public final class TowerHouse {
     private static final class Access {
         static final int MOST_CARDS = 60;
         static final int MOST_RIGHTS = 16;
+        // Each unit of each door would be a portal at most.
+        private static final int MOST_PORTALS = Plan.MOST_LINES * Plan.MOST_DOORS * Finding.EDGE;
         private static final int MOST_ROWS = 20;
         private static final int MOST_AGAINST = 100;
         private static final int MOST_NOTES = 512;
@@ -2217,7 +2219,7 @@ public final class TowerHouse {
 
         /** Counts the portals first, so that the rows kept of them are no longer than is needed. */
         void findPortals() {
-            int all = scanLines(false);
+            int all = Math.min(scanLines(false), MOST_PORTALS);
             portalTable = new int[all * PORTAL_FIELDS];
             rows = new int[all * MOST_ROWS * 3];
             lockWords = (all + 63) / 64;

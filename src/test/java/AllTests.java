@@ -30,8 +30,10 @@ final class AllTests {
         LiftEdgeTest.all();
         SmokeTest.all();
         SmokeEdgeTest.all();
+        HouseRunTest.all();
         RandomCallTest.all();
         FaceTest.all(args.length > 0 ? args[0] : "src/main/java/TowerHouse.java");
+        ReadmeTest.all(args.length > 1 ? args[1] : "README.md");
         System.out.println("project " + Checks.passed + " " + Checks.failures.size());
         if (!Checks.failures.isEmpty()) {
             System.exit(1);
